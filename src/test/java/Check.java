@@ -1,0 +1,25 @@
+/** Counts the answers that are not as due, and ends the program by them. */
+final class Check {
+  private final String name;
+  private int made;
+  private int wrong;
+
+  Check(String name) {
+    this.name = name;
+  }
+
+  void same(String what, long got, long due) {
+    made++;
+    if (got != due) {
+      wrong++;
+      System.out.println(name + ": " + what + " answered " + got + ", due is " + due);
+    }
+  }
+
+  void end() {
+    System.out.println(name + ": " + (made - wrong) + " of " + made + " answers as due");
+    if (wrong != 0) {
+      System.exit(1);
+    }
+  }
+}
