@@ -589,8 +589,9 @@ public final class PrinterHouse {
 
         /** A row of the dots that are the lowest bits. */
         void setRow(int i, int bits) {
-            long row = (long) bits << (64 - wide);
-            for (int filled = wide; filled < 64; filled *= 2) {
+            int filled = Math.max(wide, 1);
+            long row = (long) bits << (64 - filled);
+            for (; filled < 64; filled *= 2) {
                 row |= row >>> filled;
             }
             if (i >= 0 && i < rows.length) {
@@ -1361,7 +1362,6 @@ public final class PrinterHouse {
     /** The pages that came, and the OUT. */
     private static final class Sheaf {
         private static final int SIZE_MOST = 60000;
-        private static final int HEADER = 8;
         private static final int LINK = 4;
         private static final int ENTRIES = 13;
         private static final int ENTRY = 12;
@@ -2013,7 +2013,6 @@ public final class PrinterHouse {
             if (!isMuch()) {
                 keepStates();
                 reset();
-                isLastKnown = !isMuch();
             }
         }
 
@@ -2031,6 +2030,7 @@ public final class PrinterHouse {
             lastStates[9] = sheet.format;
             lastStates[10] = sheet.orientation;
             lastStates[11] = sheet.kept;
+            isLastKnown = true;
         }
 
         int lastState(int what) {
@@ -2099,7 +2099,7 @@ public final class PrinterHouse {
         }
 
         private void goThrough(byte[] bytes, int from, int to) {
-            if (depth < 0 || depth >= readings.length) {
+            if (depth < 0 || depth >= readings.length || readings[depth] == null) {
                 return;
             }
             Reading own = readings[depth];
@@ -2133,7 +2133,7 @@ public final class PrinterHouse {
         }
 
         private void callMacro(int id) {
-            if (depth < 0 || depth >= beforeMacro.length) {
+            if (depth < 0 || depth >= beforeMacro.length || beforeMacro[depth] == null) {
                 return;
             }
             Environment before = beforeMacro[depth];
@@ -2770,8 +2770,9 @@ public final class PrinterHouse {
             int wide = reading.dataByte(0);
             int high = reading.dataByte(1);
             int rowBytes = (wide + 7) / 8;
-            if (id < 0 || id >= tiles.length || wide < 1 || wide > Tile.SIDE_MOST || high < 1
-                    || high > Tile.SIDE_MOST || reading.dataSize < 2 + high * rowBytes) {
+            boolean isPattern = wide >= 1 && wide <= Tile.SIDE_MOST && high >= 1 && high <= Tile.SIDE_MOST
+                    && reading.dataSize >= 2 + high * rowBytes;
+            if (!isPattern || id < 0 || id >= tiles.length || tiles[id] == null) {
                 return;
             }
             Tile tile = tiles[id];
@@ -2809,7 +2810,7 @@ public final class PrinterHouse {
                     }
                     return false;
                 case 4:
-                    if (tileShelf.has(number) && number < tiles.length) {
+                    if (tileShelf.has(number) && number < tiles.length && tiles[number] != null) {
                         tile.copy(tiles[number]);
                         return true;
                     }

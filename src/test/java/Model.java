@@ -271,8 +271,7 @@ final class Model {
       for (; at < parts.size(); at++) {
         if (sorts.get(at) == 0) {
           states = null;
-          int[] s = stream(parts.get(at));
-          states = s;
+          stream(parts.get(at));
         } else {
           pictures(parts.get(at));
         }
@@ -411,16 +410,15 @@ final class Model {
     return c.b[c.at++] & 255;
   }
 
-  private int[] stream(byte[] bytes) {
+  private void stream(byte[] bytes) {
     env = new Env();
     page = null;
     marks = 0;
     inOverlay = false;
     through(bytes, 0);
-    int[] s = {env.x, env.y, env.hmi, env.vmi, env.left, env.right, env.top, env.bottom, fontInUse(),
+    states = new int[] {env.x, env.y, env.hmi, env.vmi, env.left, env.right, env.top, env.bottom, fontInUse(),
       env.format, env.orientation, env.places.size()};
     resetAll(0);
-    return s;
   }
 
   private void resetAll(int depth) {
