@@ -1334,8 +1334,9 @@ public final class PrinterHouse {
         /** The page as it comes, in rows of STRIDE words. */
         void copyTo(int[] page, Sheet sheet) {
             Arrays.fill(page, 0);
+            int words = Math.min((sheet.dotsAcross() + 31) / 32, WORDS);
             for (int y = 0; y < sheet.dotsDown() && y < ROWS_MOST; y++) {
-                for (int word = 0; word < WORDS; word++) {
+                for (int word = 0; word < words; word++) {
                     int bits = dots[y * WORDS + word];
                     if (sheet.orientation != 0) {
                         turnWord(page, y, sheet.pageHigh() - 1 - 32 * word, bits);

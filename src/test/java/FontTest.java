@@ -88,6 +88,9 @@ public final class FontTest {
     CHECK.same("5 bytes", glyphCount(glyph(65, "\0\0\1\1\0")), 0);
     CHECK.same("two codes", glyphCount(glyph(65, "\0\0\1\1\0\0\377") + glyph(255, "\0\0\1\1\0\0\377")), 2);
     CHECK.same("in place of one", glyphCount(glyph(65, "\0\0\1\1\0\0\377") + glyph(65, "\0\0\1\1\0\0\377")), 1);
+    String low = font(1, 1, 500) + ESC + "*c9e0E" + ESC + "(s7W\0\0\1\1\0\0\377" + ESC + "(1X" + ESC + "&p1X";
+    CHECK.same("code 0", LAB.print(low + "\0"), 1);
+    CHECK.same("not 9", LAB.print(low + "\t"), 0);
     CHECK.same("code 256 is none", glyphCount(glyph(65, "\0\0\1\1\0\0\377") + glyph(256, "\0\0\1\1\0\0\377")), 1);
     CHECK.same("no such font", glyphCount(ESC + "*c2D" + glyph(65, "\0\0\1\1\0\0\377")), 0);
     CHECK.same("the font anew", glyphCount(glyph(65, "\0\0\1\1\0\0\377") + font(1, 1, 500) + ESC + "*c5F"), 0);
@@ -169,11 +172,15 @@ public final class FontTest {
   }
 
   private static void byNumbers() {
-    inUse(font(3, 0, 720, 8, 0, 0, 0, 5) + ESC + "(0E", 3);
-    inUse(font(3, 0, 720, 8, 0, 0, 0, 33) + ESC + "(1A", 3);
-    inUse(font(3, 0, 720, 8, 0, 0, 0, 58) + ESC + "(1Z", 3);
-    inUse(font(3, 0, 720, 8, 0, 0, 0, 57) + ESC + "(1Y", 3);
-    inUse(font(3, 0, 720, 8, 0, 0, 0, 64) + ESC + "(2@", 16);
+    String other = font(2, 0, 720, 8, 0, 0, 0, 99);
+    inUse(other + font(3, 0, 720, 8, 0, 0, 0, 5) + ESC + "(0E", 3);
+    inUse(other + font(3, 0, 720, 8, 0, 0, 0, 33) + ESC + "(1A", 3);
+    inUse(other + font(3, 0, 720, 8, 0, 0, 0, 86) + ESC + "(2V", 3);
+    inUse(other + font(3, 0, 720, 8, 0, 0, 0, 58) + ESC + "(1Z", 3);
+    inUse(other + font(3, 0, 720, 8, 0, 0, 0, 57) + ESC + "(1Y", 3);
+    inUse(other + font(3, 0, 720, 8, 0, 0, 255, 65535) + ESC + "(2047.9_" + ESC + "(2047Z", 2);
+    inUse(other + font(3, 0, 720, 8, 0, 0, 0, 64) + ESC + "(2@", 16);
+    inUse(other + font(3, 0, 720, 8, 0, 0, 0, 87) + ESC + "(2W", 16);
     inUse(font(3, 0, 720, 8, 0, 0, 0, 5) + ESC + "(0F", 3);
     inUse(font(3, 0, 720, 8, 0, 0, 0, 0), 3);
     inUse(font(3, 0, 720, 8) + font(2, 0, 720, 8), 2);
@@ -187,6 +194,7 @@ public final class FontTest {
     inUse(font(3, 0, 700, 8) + font(4, 0, 740, 8), 16);
     inUse(font(3, 0, 500, 8) + font(4, 0, 700, 8) + ESC + "(s12H", 4);
     inUse(font(3, 0, 720, 10) + font(4, 0, 720, 12) + ESC + "(s11V", 4);
+    inUse(font(2, 0, 720, 9) + font(3, 0, 720, 4) + ESC + "(s0V", 3);
     inUse(font(3, 0, 720, 10) + font(4, 0, 720, 12) + ESC + "(s10V", 3);
     inUse(font(3, 0, 720, 8, 4) + font(4, 0, 720, 8, 5) + ESC + "(s5S", 4);
     inUse(font(3, 0, 720, 8, 4) + font(4, 0, 720, 8, 5) + ESC + "(s6S", 3);

@@ -133,6 +133,8 @@ public final class StateTest {
     due(ESC, 0, 0);
     due(ESC + " A", 0, 1440);
     due(ESC + "&C", 0, 0);
+    due(ESC + "&\177C", 0, 1440);
+    due(ESC + "&`5CA", 0, 720);
     due(ESC + "&5CA", 0, 720);
     due(ESC + "(8uC", 0, 0);
     due(ESC + "/aA5C", 0, 1440);
