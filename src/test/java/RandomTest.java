@@ -15,6 +15,11 @@ public final class RandomTest {
     for (int seed = 0; seed < most / 5; seed++) {
       muchJobs(seed, new Random(seed));
     }
+    for (int seed = 0; seed < most / 5; seed++) {
+      Pair pair = new Pair();
+      pair.wildCalls(new Random(seed), 512);
+      tell("wild seed " + seed, pair);
+    }
     System.out.println("RandomTest: jobs by fault " + Arrays.toString(FAULTS) + ", " + wrong + " wrong");
     if (wrong != 0) {
       System.exit(1);
