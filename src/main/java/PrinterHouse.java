@@ -2009,12 +2009,13 @@ public final class PrinterHouse {
             canvas.clear();
             depth = 0;
             isInOverlay = false;
-            isLastKnown = false;
             goThrough(job, from, to);
             if (!isMuch()) {
                 keepStates();
                 reset();
             }
+            // The E at its end is the STREAM's own: MUCH that comes by it came in the STREAM.
+            isLastKnown = !isMuch();
         }
 
         private void keepStates() {
@@ -2031,7 +2032,6 @@ public final class PrinterHouse {
             lastStates[9] = sheet.format;
             lastStates[10] = sheet.orientation;
             lastStates[11] = sheet.kept;
-            isLastKnown = true;
         }
 
         int lastState(int what) {

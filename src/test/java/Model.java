@@ -416,9 +416,10 @@ final class Model {
     marks = 0;
     inOverlay = false;
     through(bytes, 0);
-    states = new int[] {env.x, env.y, env.hmi, env.vmi, env.left, env.right, env.top, env.bottom, fontInUse(),
+    int[] ahead = {env.x, env.y, env.hmi, env.vmi, env.left, env.right, env.top, env.bottom, fontInUse(),
       env.format, env.orientation, env.places.size()};
     resetAll(0);
+    states = ahead;
   }
 
   private void resetAll(int depth) {

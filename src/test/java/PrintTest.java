@@ -71,28 +71,25 @@ public final class PrintTest {
     CHECK.same(what + ": outs", lab.house.outs(), 0);
   }
 
-  private static void muchWithin(String what, Lab lab, int answer, int part) {
+  /** MUCH in a STREAM, by its own E, too: it has no state then. */
+  private static void muchInStream(String what, Lab lab, int answer, int part) {
     much(what, lab, answer, part);
-    CHECK.same(what + ": state", lab.house.state(3), PrinterHouse.NONE);
-  }
-
-  /** MUCH that comes by E, behind the last byte. */
-  private static void muchAtEnd(String what, Lab lab, int answer, int part) {
-    much(what, lab, answer, part);
-    CHECK.same(what + ": state", lab.house.state(3), 1200);
+    for (int i = 0; i < 12; i++) {
+      CHECK.same(what + ": state", lab.house.state(i), PrinterHouse.NONE);
+    }
   }
 
   private static void pagesTooMany() {
     Lab lab = new Lab();
     CHECK.same("12 pages", lab.print("A\f".repeat(12)), 12);
-    muchWithin("13 pages", lab, lab.print("A\f".repeat(13)), 0);
+    muchInStream("13 pages", lab, lab.print("A\f".repeat(13)), 0);
     CHECK.same("3 times 4", lab.print(ESC + "&l4X" + "A\f".repeat(3)), 12);
-    muchWithin("4 times 4", lab, lab.print(ESC + "&l4X" + "A\f".repeat(4)), 0);
-    muchAtEnd("the last by the end", lab, lab.print("A\f".repeat(12) + "A"), 0);
+    muchInStream("4 times 4", lab, lab.print(ESC + "&l4X" + "A\f".repeat(4)), 0);
+    muchInStream("the last by the end", lab, lab.print("A\f".repeat(12) + "A"), 0);
     lab.stream("A\f".repeat(11));
     lab.stream("A");
     lab.stream("A");
-    muchAtEnd("in parts", lab, lab.house.print(3), 2);
+    muchInStream("in parts", lab, lab.house.print(3), 2);
   }
 
   private static String macro(int id, String bytes) {
@@ -112,17 +109,17 @@ public final class PrintTest {
     CHECK.same("60000 bytes", lab.print(most + "\0".repeat(left)), 0);
     CHECK.same("60000 are", lab.house.held(5), 60000);
     CHECK.same("X then", lab.house.state(0), 0);
-    muchWithin("60001 bytes", lab, lab.print(most + "\0".repeat(left + 1)), 0);
+    muchInStream("60001 bytes", lab, lab.print(most + "\0".repeat(left + 1)), 0);
     CHECK.same("60001 are", lab.house.held(5), 60001);
     CHECK.same("DATA that fit", lab.print(most + "0X" + "\0".repeat(left - 2)), 0);
     String data = ESC + "*c3D" + ESC + ")s40W";
-    muchWithin("DATA beyond", lab, lab.print(most + "\0".repeat(left - data.length() - 39) + data + "\1".repeat(40)), 0);
+    muchInStream("DATA beyond", lab, lab.print(most + "\0".repeat(left - data.length() - 39) + data + "\1".repeat(40)), 0);
     CHECK.same("DATA at once", lab.house.held(5), 60001);
-    muchWithin("DATA far beyond", lab, lab.print(most + "\0".repeat(left - data.length()) + data + "\1".repeat(40)), 0);
+    muchInStream("DATA far beyond", lab, lab.print(most + "\0".repeat(left - data.length()) + data + "\1".repeat(40)), 0);
     CHECK.same("all of the DATA", lab.house.held(5), 60040);
     lab.stream(most);
     lab.stream("\0".repeat(left + 1));
-    muchWithin("in the second part", lab, lab.house.print(1), 1);
+    muchInStream("in the second part", lab, lab.house.print(1), 1);
   }
 
   private static void marksTooMany() {
@@ -131,7 +128,7 @@ public final class PrintTest {
     String head = macro(1, row.repeat(250)) + ESC + "&f1y2x2x2x2x2x2x2x";
     CHECK.same("2000 marks", lab.print(head + "2X"), 1);
     CHECK.same("they are", lab.house.held(6), 2000);
-    muchWithin("2001 marks", lab, lab.print(head + "2XA"), 0);
+    muchInStream("2001 marks", lab, lab.print(head + "2XA"), 0);
     CHECK.same("on another page", lab.print(head + "2X\fA"), 2);
     CHECK.same("they are", lab.house.held(6), 2001);
   }
@@ -142,7 +139,7 @@ public final class PrintTest {
     CHECK.same("4608000 dots", lab.print(nine), 0 + 1);
     CHECK.same("5000000 dots", lab.print(nine + "640a612b1p8a40b1P"), 1);
     CHECK.same("marks", lab.house.held(6), 11);
-    muchWithin("5000001 dots", lab, lab.print(nine + "640a612b1p8a40b1p1a1b1P"), 0);
+    muchInStream("5000001 dots", lab, lab.print(nine + "640a612b1p8a40b1p1a1b1P"), 0);
     CHECK.same("the last is not made", lab.house.held(6), 11);
     String copies = ESC + "&l3A" + ESC + "&l4X" + ESC + "*c9999a9999b1P\f" + ESC + "*c1P";
     CHECK.same("copies cover nothing", lab.print(copies), 8);
@@ -167,9 +164,9 @@ public final class PrintTest {
     CHECK.same("60000 bytes", lab.print(big + "\f" + shaded(100, 302)), 2);
     CHECK.same("they are", lab.house.outs(), 60000);
     CHECK.same("take", lab.house.take(), PrinterHouse.NONE);
-    muchAtEnd("60002 bytes", lab, lab.print(big + "\f" + shaded(80, 377)), 0);
-    muchAtEnd("a page that is too long alone", lab, lab.print(ESC + "&l3A" + shaded(640, 800)), 0);
-    muchAtEnd("by its copies", lab, lab.print(ESC + "&l2X" + big), 0);
+    muchInStream("60002 bytes", lab, lab.print(big + "\f" + shaded(80, 377)), 0);
+    muchInStream("a page that is too long alone", lab, lab.print(ESC + "&l3A" + shaded(640, 800)), 0);
+    muchInStream("by its copies", lab, lab.print(ESC + "&l2X" + big), 0);
   }
 
   private static void behindFaults() {
@@ -177,7 +174,7 @@ public final class PrintTest {
     String font = ")s9W\1\1\0\10\0\0\0\0\1";
     String text = ESC + "*c1D" + ESC + font + ESC + "*c5F" + ESC + "*c2D" + ESC + font + macro(1, "A") + macro(2, "B")
         + ESC + "&f1y10X" + ESC + "*c3G" + ESC + "*c3W\1\1\1" + ESC + "*c4g3W\1\1\1" + ESC + "*c4g5Q";
-    muchWithin("MUCH", lab, lab.print(text + "A\f".repeat(13)), 0);
+    muchInStream("MUCH", lab, lab.print(text + "A\f".repeat(13)), 0);
     CHECK.same("fonts", lab.house.held(0), 1);
     CHECK.same("patterns", lab.house.held(2), 1);
     CHECK.same("macros", lab.house.held(3), 1);

@@ -7,6 +7,7 @@ public final class StateTest {
   public static void main(String[] args) {
     atFirst();
     whenItIsTold();
+    behindMuch();
     values();
     sequences();
     margins();
@@ -72,6 +73,52 @@ public final class StateTest {
     lab.picture(Lab.bytes("X"));
     lab.house.print(1);
     CHECK.same("a fault elsewhere", lab.house.state(0), 720);
+  }
+
+  private static void stateIs(String what, PrinterHouse house, int x) {
+    CHECK.same(what + ": X", house.state(0), x);
+    CHECK.same(what + ": FORMAT", house.state(9), x == PrinterHouse.NONE ? x : 1);
+  }
+
+  /** MUCH in a STREAM, also by the E at its end, leaves none; MUCH in PICTURES leaves what was. */
+  private static void behindMuch() {
+    Lab lab = new Lab();
+    String twelve = "A\f".repeat(12);
+    lab.print("AB");
+    CHECK.same("MUCH ahead of the end", lab.print(twelve + "A\f"), -11);
+    stateIs("MUCH ahead of the end", lab.house, PrinterHouse.NONE);
+    lab.print("AB");
+    CHECK.same("MUCH by the end", lab.print(twelve + "A"), -11);
+    stateIs("MUCH by the end", lab.house, PrinterHouse.NONE);
+    lab.picture(Lab.bytes("MM\0*\0\0\0\0"));
+    CHECK.same("PICTURES behind it", lab.house.print(1), 0);
+    stateIs("PICTURES behind it", lab.house, PrinterHouse.NONE);
+    lab.print("A");
+    lab.house.take();
+    lab.house.part(1);
+    lab.stream("A\f".repeat(11) + "ABC");
+    CHECK.same("a 13th by the end", lab.house.print(1), -11);
+    stateIs("a 13th by the end", lab.house, PrinterHouse.NONE);
+    lab.print("A");
+    lab.house.take();
+    lab.house.part(1);
+    CHECK.same("one page of PICTURES", lab.house.print(1), 1);
+    lab.house.take();
+    lab.house.part(1);
+    lab.stream("A\f".repeat(11));
+    lab.stream("ABC");
+    CHECK.same("13 pages of three", lab.house.print(1), -11);
+    stateIs("13 pages of three", lab.house, PrinterHouse.NONE);
+    lab.print("A");
+    byte[] picture = new byte[lab.house.outs()];
+    for (int i = 0; i < picture.length; i++) {
+      picture[i] = (byte) lab.house.out(i);
+    }
+    lab.stream(twelve);
+    lab.picture(picture);
+    CHECK.same("MUCH in PICTURES", lab.house.print(1), -11);
+    CHECK.same("the part", lab.house.fault(1), 1);
+    stateIs("MUCH in PICTURES", lab.house, 12 * 720);
   }
 
   private static void values() {
