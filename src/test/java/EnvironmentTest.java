@@ -1,0 +1,158 @@
+/**
+ * THE ENVIRONMENT, thing by thing: each has a text that changes it and one by which the change is seen. RESET makes it as
+ * at first, behind a macro that is called it is as before, an OVERLAY finds it as at first and leaves it as it was.
+ */
+public final class EnvironmentTest {
+  private static final Check CHECK = new Check("EnvironmentTest");
+  private static final String ESC = "\33";
+  private static final Lab LAB = new Lab();
+
+  /** What is there for all: fonts 3 to 5, USER pattern 2, macros 2 and 0; none of them TEMPORARY. */
+  private static final String THINGS = font(0, 1, 700, 8, 0, 0, 0, 90) + font(3, 1, 500, 20, 1, 1, 1, 1)
+      + font(4, 1, 400, 8, 0, 0, 0, 0) + font(5, 0, 300, 8, 0, 0, 0, 0) + font(6, 0, 720, 30, 0, 0, 0, 0)
+      + font(7, 0, 720, 8, 2, 0, 0, 0) + font(8, 0, 720, 8, 0, 9, 0, 0) + font(9, 0, 720, 8, 0, 0, 2, 0)
+      + ESC + "*c2G" + ESC + "*c3W\4\1\200" + ESC + "*c5Q"
+      + macro(2, "mm") + ESC + "&f10X" + macro(0, "M") + ESC + "&f10X";
+
+  private static final String BOX = ESC + "*p0x20Y" + ESC + "*c40a9b5P";
+  private static final String HATCH = ESC + "*p0x20Y" + ESC + "*c40a9b1g3P";
+  private static final String RASTER = ESC + "*b3W\1\123\2";
+
+  /** Names, what changes them, by what it is seen. */
+  private static final String[][] THINGS_TOLD = {
+    {"LEFT", "&a5L", "\rA"},
+    {"RIGHT", "&a9M", ESC + "*p0X" + "A".repeat(20)},
+    {"TOP", "&l5E", ESC + "&l0HA"},
+    {"BOTTOM", "&l5F", ESC + "&l1L" + ESC + "*p0Y" + "\n".repeat(9) + "A"},
+    {"VMI", "&l9C", "\nA"},
+    {"HMI", "&k20H", "AB"},
+    {"X", "&a9C", "A"},
+    {"Y", "&a9R", "A"},
+    {"COPIES", "&l3X", "A"},
+    {"SKIP", "&l1L", ESC + "&l5F" + ESC + "*p0Y" + "\n".repeat(9) + "A"},
+    {"ENDS 1", "&k1G", "A\rB"},
+    {"ENDS 2", "&k2G", "A\nB"},
+    {"WRAP", "&s0C", ESC + "*p0X" + ESC + "&a3MABCDEFGH"},
+    {"PRIMARY by ID", "(3X", "\17"},
+    {"PRIMARY's set", "(0A", "\17"},
+    {"PRIMARY's spacing", "(s1P", "\17"},
+    {"PRIMARY's pitch", "(s24H", "\17"},
+    {"PRIMARY's height", "(s30V", "\17"},
+    {"PRIMARY's style", "(s2S", "\17"},
+    {"PRIMARY's weight", "(s9B", "\17"},
+    {"PRIMARY's typeface", "(s2T", "\17"},
+    {"SECONDARY by ID", ")3X", "\16"},
+    {"SECONDARY's set", ")0A", "\16"},
+    {"SECONDARY's spacing", ")s1P", "\16"},
+    {"SECONDARY's pitch", ")s24H", "\16"},
+    {"SECONDARY's height", ")s30V", "\16"},
+    {"SECONDARY's style", ")s2S", "\16"},
+    {"SECONDARY's weight", ")s9B", "\16"},
+    {"SECONDARY's typeface", ")s2T", "\16"},
+    {"the font in use", "\16", ESC + ")3X"},
+    {"PATTERN", "*v1T", "A" + BOX},
+    {"PATTERN USER", "*c2G" + ESC + "*v4T", "A" + BOX},
+    {"SOURCE OPAQUE", "*v1N", ESC + "*p0x20Y" + ESC + "*c40a9b0P" + ESC + "*b2W\1\2"},
+    {"PATTERN OPAQUE", "*v1O", ESC + "*p0x20Y" + ESC + "*c40a9b0p1g3P"},
+    {"PATTERN PLACE across", "*p3X" + ESC + "*pR", ESC + "*p0x20Y" + ESC + "*c40a9b2g3P"},
+    {"PATTERN PLACE down", "*p3Y" + ESC + "*pR", ESC + "*p0X" + HATCH},
+    {"SCALE", "*t25R", RASTER},
+    {"packing", "*b2M", RASTER},
+    {"raster's width", "*r9S", RASTER},
+    {"raster's height", "*r1T", RASTER + RASTER},
+    {"raster is on", "*p5X" + ESC + "*r1A", RASTER},
+    {"raster's place", "*p5X" + ESC + "*r1A" + ESC + "*p0X", RASTER},
+    {"rectangle's width", "*c7A", ESC + "*c5b0P"},
+    {"rectangle's height", "*c7B", ESC + "*c5a0P"},
+    {"font's ID", "*c5D", ESC + ")s9W\1\1\0\1\1\1\1\0\77" + ESC + "(0X"},
+    {"code", "*c65E", ESC + ")s9W\1\1\0\1\1\1\1\0\77" + ESC + "(s7W\0\0\1\1\1\1\200" + ESC + "(0XAB"},
+    {"pattern's number", "*c2G", ESC + "*c40a9b4P"},
+    {"macro's ID", "&f2Y", ESC + "&f2X"},
+    {"places kept", "&f0S", ESC + "&a9C" + ESC + "&f1SA"},
+    {"OVERLAY", "&f2y4X", "A"},
+    {"BACK", "&k20H " + ESC + "&k12H" + ESC + "*p0x0Y", ESC + "*p100X\bA"},
+  };
+
+  /** Those that an OVERLAY can't show: they belong to the page that comes. */
+  private static final String NOT_IN_OVERLAYS = " COPIES OVERLAY ";
+
+  public static void main(String[] args) {
+    LAB.print(THINGS);
+    CHECK.same("fonts", LAB.house.held(0), 8);
+    CHECK.same("patterns", LAB.house.held(2), 1);
+    CHECK.same("macros", LAB.house.held(3), 2);
+    for (String[] thing : THINGS_TOLD) {
+      seen(thing[0], ESC + thing[1], thing[2]);
+    }
+    turned();
+    CHECK.end();
+  }
+
+  private static String font(int id, int... n) {
+    StringBuilder s = new StringBuilder(ESC + "*c" + id + "D" + ESC + ")s9W");
+    s.append((char) n[0]).append((char) (n[1] >> 8)).append((char) (n[1] & 255));
+    for (int i = 2; i < 6; i++) {
+      s.append((char) n[i]);
+    }
+    return s.append((char) (n[6] >> 8)).append((char) (n[6] & 255)).append(ESC).append("*c5F").toString();
+  }
+
+  private static String macro(int id, String bytes) {
+    return ESC + "&f" + id + "y0X" + bytes + ESC + "&f1X" + ESC + "&f" + id + "Y";
+  }
+
+  /** All that is seen of a job: its pages and its state. The things are told anew, since jobs may change them. */
+  private static String seenOf(String text) {
+    LAB.house.off();
+    LAB.print(THINGS);
+    StringBuilder s = new StringBuilder();
+    s.append(LAB.print(text)).append(' ').append(LAB.house.sum()).append(' ').append(LAB.house.held(6));
+    for (int what = 0; what < 12; what++) {
+      s.append(' ').append(LAB.house.state(what));
+    }
+    return s.toString();
+  }
+
+  private static void alike(String what, String one, String two, boolean due) {
+    CHECK.same(what, seenOf(one).equals(seenOf(two)) ? 1 : 0, due ? 1 : 0);
+  }
+
+  private static String told(int id, String bytes) {
+    return ESC + "&f" + id + "y0X" + bytes + ESC + "&f1X";
+  }
+
+  private static void seen(String name, String change, String probe) {
+    alike(name + ": the change is seen", probe, change + probe, false);
+    CHECK.about("E RESET");
+    alike(name + ": as at first by E", probe, change + ESC + "E" + probe, true);
+    CHECK.about("3 likewise, and the ENVIRONMENT is as before then");
+    String start = told(9, change) + ESC + "&f0Y";
+    alike(name + ": as before a macro that is called", start + ESC + "&f9y0Y" + probe, start + ESC + "&f9y3x0Y" + probe, true);
+    alike(name + ": not of one gone through", start + ESC + "&f9y0Y" + probe, start + ESC + "&f9y2X" + probe, false);
+    CHECK.about("the OVERLAY is gone through, with RESET but FORMAT and ORIENTATION");
+    String mark = ESC + "*p0x0Y" + ESC + "*c1a1b0P";
+    if (!NOT_IN_OVERLAYS.contains(" " + name + " ")) {
+      String over = told(9, probe) + ESC + "&f9y4x0Y";
+      alike(name + ": as at first in an OVERLAY", over + change + mark + ESC + "E", over + mark + ESC + "E", true);
+    }
+    CHECK.about("and the ENVIRONMENT is as before");
+    String changing = told(9, change) + told(8, "") + ESC + "&f0Y";
+    String page = mark + ESC + "*p0x9Y\f" + ESC + "*c0a0B";
+    alike(name + ": as before behind an OVERLAY", changing + ESC + "&f9y4x0Y" + page + ESC + "&f5X" + probe,
+        changing + ESC + "&f8y4x0Y" + page + ESC + "&f5X" + probe, true);
+  }
+
+  /** FORMAT and ORIENTATION, by which the page comes ahead of all. */
+  private static void turned() {
+    for (String change : new String[] {ESC + "&l2A", ESC + "&l1O"}) {
+      CHECK.about("FORMAT and ORIENTATION");
+      alike("seen", "A", change + "A", false);
+      alike("as at first by E", "A", change + ESC + "EA", true);
+      alike("as before a macro that is called", told(9, change) + ESC + "&f9YA", told(9, change) + ESC + "&f9y3XA", true);
+      LAB.print(told(9, ESC + "*p300x0Y" + ESC + "*c2a2b0P") + ESC + "&f9y4X" + change + "B");
+      int black = LAB.black(0);
+      LAB.print(change + "B");
+      CHECK.same("the OVERLAY's MARK is on a page like that", black - LAB.black(0), 4);
+    }
+  }
+}
