@@ -226,7 +226,10 @@ public final class CodeEdgesTest {
     CHECK.about("b2 the next one behind that differs from it; the width, where there is none");
     good(20, PASS, "0".repeat(20));
     good(20, two(5, 15) + PASS, "0".repeat(5) + "1".repeat(15), "0".repeat(20));
-    // Black passes, too: it stays black.
+    // Black passes, too: it stays black, and goes on from b2.
+    good(20, two(5, 5) + two(2, 2) + V0 + V0 + PASS + TWO + run(1, 1) + run(0, 3) + V0, "0".repeat(5) + "11111" + "0011"
+        + "000000", "0".repeat(5) + "1".repeat(8) + "000" + "1111");
+    // It stays black.
     good(20, two(5, 5) + two(2, 2) + V0 + V0 + PASS + V0 + V0, "0".repeat(5) + "11111" + "0011" + "000000",
         "0".repeat(5) + "1".repeat(9) + "000000");
   }
@@ -253,7 +256,7 @@ public final class CodeEdgesTest {
     CHECK.about("Bits beyond the STRIP: wrong");
     // The row before, and the bits that end the last row.
     String[][] last = {{two(639, 1), "011"}, {two(638, 2), "000011"}, {two(637, 3), "0000011"}, {two(600, 40), PASS},
-      {two(600, 40), two(1, 639)}, {two(600, 40), two(64, 576)}, {two(640, 0), V0}};
+      {two(600, 40), two(1, 639)}, {two(600, 40), two(639, 1)}, {two(600, 40), two(637, 3)}, {two(600, 40), two(620, 20)}, {two(600, 40), two(64, 576)}, {two(640, 0), V0}};
     for (String[] two : last) {
       int bits = two[0].length() + two[1].length();
       int rows = (8 - bits % 8) % 8;

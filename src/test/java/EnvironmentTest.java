@@ -85,6 +85,8 @@ public final class EnvironmentTest {
       seen(thing[0], ESC + thing[1], thing[2]);
     }
     turned();
+    insides();
+    unlisted();
     CHECK.end();
   }
 
@@ -154,5 +156,78 @@ public final class EnvironmentTest {
       LAB.print(change + "B");
       CHECK.same("the OVERLAY's MARK is on a page like that", black - LAB.black(0), 4);
     }
+  }
+
+  /** What lies within a thing is as before, too. */
+  private static void insides() {
+    CHECK.about("3 likewise, and the ENVIRONMENT is as before then");
+    String call = ESC + "&f9y3X";
+    String places = told(9, ESC + "&f1S" + ESC + "*p7x7Y" + ESC + "&f0S") + ESC + "*p3x4Y" + ESC + "&f0S" + call + ESC
+        + "*p50x50Y" + ESC + "&f1S";
+    CHECK.same("X of the place kept", LAB.state(places, 0), 288);
+    CHECK.same("Y of it", LAB.house.state(1), 384);
+    CHECK.same("they are as many", LAB.house.state(11), 0);
+    String black = ESC + "*p0x0Y" + ESC + "*c16a1b0P";
+    LAB.print(told(9, ESC + "*v1T") + ESC + "*c2G" + ESC + "*v3T" + call + black + ESC + "*c5P");
+    CHECK.same("HATCH is transparent again", LAB.house.black(0, 0), 16);
+    LAB.print(told(9, ESC + "*c2G" + ESC + "*v3T") + ESC + "*v1T" + call + black + ESC + "*c5P");
+    CHECK.same("WHITE is OPAQUE again", LAB.house.black(0, 0), 0);
+    LAB.print(told(9, ESC + "*c3W\1\1\0" + ESC + "*v4T") + ESC + "*c4W\4\2\200\40" + ESC + "*v4T" + call + ESC + "*p0x0Y" + ESC
+        + "*c16a2b5P");
+    CHECK.same("USER as it was told", LAB.house.black(0, 0) + LAB.house.black(0, 1), 8);
+    String row = ESC + "*b1W\200";
+    LAB.print(told(9, ESC + "*p50X" + ESC + "*r1A" + row + row) + ESC + "*p5x0Y" + ESC + "*r3t1A" + row + call + row + row + row);
+    CHECK.same("the raster's place", LAB.house.dot(0, 5, 1), 1);
+    CHECK.same("and how many rows were", LAB.house.held(6), 1 + 2 + 2);
+    CHECK.same("Y", LAB.house.state(1), 288);
+  }
+
+  private static final String[] LISTED = {"&lAOHXCDEFL", "&aCRHVLM", "&kHG", "&sC", "&fYXS", "&pX", "*pXYR", "*cDEFGWQABHVP",
+    "(sWPHVSTB", ")sWPHVSTB", "(\0XABCDEFGHIJKLMNOPQRSTUVYZ", ")\0XABCDEFGHIJKLMNOPQRSTUVYZ", "*vNOT", "*tR", "*rABCST",
+    "*bMYW"};
+
+  private static boolean isListed(char kind, char group, char letter) {
+    for (String l : LISTED) {
+      if (l.charAt(0) == kind && l.charAt(1) == group && l.indexOf(letter, 2) >= 0) {
+        return true;
+      }
+    }
+    return false;
+  }
+
+  /** Each FIELD that the list lacks, in the midst of a text by which all that it might change is seen. */
+  private static void unlisted() {
+    CHECK.about("what is not in it does nothing");
+    StringBuilder start = new StringBuilder(ESC + "&f2y4X" + ESC + "&a2l20M" + ESC + "&f0S" + ESC + "*c3a3b2G" + ESC + "*c3E");
+    StringBuilder probe = new StringBuilder("AB\r\n" + ESC + "*c40a9b5P\f" + HATCH + ESC + "*c4P" + RASTER + RASTER + ESC
+        + "&f2X" + "A".repeat(30) + "\b\t\16A\17A");
+    start.append("C ");
+    for (char kind = 33; kind <= 47; kind++) {
+      for (String groups = "\0laksfpcvtrb`~"; !groups.isEmpty(); groups = groups.substring(1)) {
+        char group = groups.charAt(0);
+        String plain = seenOf2(start + "" + probe);
+        for (char letter = 64; letter <= 94; letter++) {
+          boolean isData = letter == 'W' || kind == '&' && group == 'p' && letter == 'X';
+          if (!isListed(kind, group, letter)) {
+            String field = ESC + kind + (group == 0 ? "" : "" + group) + "1" + letter + (isData ? "x" : "");
+            String seen = seenOf2(start + field + probe);
+            CHECK.same(field.replace(ESC, "^") + " does nothing", seen.equals(plain) ? 1 : 0, 1);
+          }
+        }
+      }
+    }
+  }
+
+  /** As seenOf, but of a text that leaves the things as they are. */
+  private static String seenOf2(String text) {
+    StringBuilder s = new StringBuilder();
+    s.append(LAB.print(text)).append(' ').append(LAB.house.sum()).append(' ').append(LAB.house.held(6));
+    for (int what = 0; what < 12; what++) {
+      s.append(' ').append(LAB.house.state(what));
+    }
+    for (int what = 0; what < 5; what++) {
+      s.append(' ').append(LAB.house.held(what));
+    }
+    return s.toString();
   }
 }

@@ -12,6 +12,7 @@ public final class FontEdgesTest {
     nineBytes();
     pitches();
     spacings();
+    otherGroups();
     signedWeight();
     inPlaceOfOne();
     glyphSizes();
@@ -114,6 +115,11 @@ public final class FontEdgesTest {
       inUse(font(id, 1, 500) + ESC + "(" + id + "X", id);
     }
     CHECK.same("0 and 15", held(font(0) + ESC + "*c5F" + font(15), 0), 2);
+    inUse(font(0, 1, 500, 9, 9, 9, 9, 5) + ESC + "(0E", 0);
+    inUse(font(0, 0, 500) + font(1, 0, 300) + ESC + "(s14.4H", 0);
+    inUse(font(0, 0, 720, 99) + font(1, 0, 720, 50) + ESC + "(s90V", 0);
+    inUse(font(0, 0, 720, 8, 0, 9) + ESC + "(s9B", 0);
+    CHECK.same("0 at first", held(ESC + ")s9W\1\2\120\10\0\0\0\0\0", 0), 1);
     for (String id : new String[] {"-1", "16", "17", "32767"}) {
       inUse(font(4, 1, 500) + ESC + "*c" + id + "D" + ESC + ")s9W\1\0\1\10\0\0\0\0\0" + ESC + "(4X", 4);
       due(font(4, 1, 500) + ESC + "*c" + id + "D" + ESC + ")s9W\1\0\1\10\0\0\0\0\0" + ESC + "(4X", 2, 1);
@@ -130,6 +136,8 @@ public final class FontEdgesTest {
       String text = font(1, 1) + ESC + "*c65e" + code + "E" + ESC + "(s7W\0\0\1\1\2\120\200" + ESC + "(1XA";
       CHECK.same("code stays 65 by " + code, LAB.print(text), 1);
     }
+    CHECK.same("0 of font 0", LAB.print(font(0, 1) + dot(0) + ESC + "(0X" + ESC + "&p1X\0"), 1);
+    CHECK.same("255 of font 15", LAB.print(font(15, 1) + dot(255) + ESC + "(15X\377"), 1);
     CHECK.same("0 at first", LAB.print(font(1, 1) + ESC + "(s7W\0\0\1\1\2\120\200" + ESC + "(1X" + ESC + "&p1X\0"), 1);
   }
 
@@ -169,6 +177,18 @@ public final class FontEdgesTest {
     }
     inUse(font(3, 1) + ESC + "(s1p0P", 16);
     inUse(font(3, 1) + ESC + "(s.9P", 16);
+  }
+
+  private static void otherGroups() {
+    CHECK.about(")s: W a font; (s: W a GLYPH (of no other GROUP)");
+    for (int group = 96; group <= 126; group++) {
+      String font = ESC + "*c3D" + ESC + ")" + (char) group + "9W\1\2\120\10\0\0\0\0\0";
+      CHECK.same("fonts by GROUP " + group, held(font, 0), group == 's' ? 1 : 0);
+      String glyph = font(3, 1) + ESC + "(" + (char) group + "7W\0\0\1\1\2\120\200";
+      CHECK.same("GLYPHS by GROUP " + group, held(glyph, 1), group == 's' ? 1 : 0);
+    }
+    CHECK.same("a font by (s", held(ESC + "*c3D" + ESC + "(s9W\1\2\120\10\0\0\0\0\0", 0), 0);
+    CHECK.same("a GLYPH by )s", held(font(3, 1) + ESC + ")s7W\0\0\1\1\2\120\200", 1), 0);
   }
 
   private static void signedWeight() {
@@ -229,6 +249,22 @@ public final class FontEdgesTest {
       CHECK.same("only " + n, glyphs("\0\0\1\1\0\0".substring(0, n)), 0);
     }
     for (int wide = 1; wide <= 32; wide++) {
+      StringBuilder rows = new StringBuilder();
+      int bytes = (wide + 7) / 8;
+      for (int i = 0; i < 5 * bytes; i++) {
+        rows.append((char) (i * 91 + 54 & 255));
+      }
+      LAB.print(font(3, 1) + glyph(65, "\0\0" + (char) wide + "\5\0\0" + rows) + ESC + "(3X" + ESC + "*p" + wide + "x9YA");
+      int wrong = 0;
+      for (int r = 0; r < 5; r++) {
+        for (int i = -1; i <= wide; i++) {
+          int bit = i < 0 || i == wide ? 0 : rows.charAt(r * bytes + i / 8) >> (7 - i % 8) & 1;
+          wrong += LAB.house.dot(0, wide + i, 9 + r) == bit ? 0 : 1;
+        }
+      }
+      CHECK.same("wrong dots of five rows of " + wide, wrong, 0);
+    }
+    for (int wide = 1; wide <= 32; wide++) {
       String bits = "\375\276\177\337".substring(0, (wide + 7) / 8);
       String all = "11111101101111100111111111011111";
       String text = font(3, 1) + glyph(65, "\0\0" + (char) wide + "\1\0\0" + bits) + ESC + "(3X";
@@ -249,6 +285,15 @@ public final class FontEdgesTest {
         CHECK.same("dot " + left + " " + top, LAB.house.dot(0, 150 + (byte) left, 160 - (byte) top), 1);
         CHECK.same("alone", LAB.black(0), 1);
       }
+    }
+    String broad = font(3, 1) + glyph(65, "\0\0\40\1\0\0\377\377\377\377") + ESC + "(3X";
+    for (int x : new int[] {735, 736, 737, 750, 767, 768, 769, 790, 799, 800}) {
+      LAB.print(ESC + "&l3a1O" + broad + ESC + "*p" + x + "x9YA");
+      CHECK.same("32 dots from " + x + " of 800", LAB.black(0), Math.min(32, 800 - x));
+    }
+    for (int left : new int[] {224, 225, 240, 255}) {
+      LAB.print(font(3, 1) + glyph(65, (char) left + "\0\40\1\0\0\377\377\377\377") + ESC + "(3X" + ESC + "*p0x9YA");
+      CHECK.same("32 dots from " + (byte) left, LAB.black(0), 32 + (byte) left);
     }
     String two = font(3, 1) + glyph(65, "\377\1\2\2\0\0\300\300") + ESC + "(3X";
     LAB.print(two + ESC + "*p0x0YA");
@@ -303,6 +348,12 @@ public final class FontEdgesTest {
     CHECK.same("the one that went is not", LAB.print(ESC + "(0X" + ESC + "&p1X\7"), 0);
     LAB.print(font(1, 1) + ESC + "*c5F");
     CHECK.same("a font in place: its 200 went", LAB.house.held(1), 200);
+    LAB.print("!~");
+    int due = 0;
+    for (int r = 0; r < 8; r++) {
+      due += Integer.bitCount((33 * 33 + 7 * 33 * r + 13 * r * r) / 4 & 63) + Integer.bitCount((126 * 126 + 7 * 126 * r + 13 * r * r) / 4 & 63);
+    }
+    CHECK.same("the RESIDENT's are as they were", LAB.black(0), due);
     CHECK.same("off", LAB.house.off(), 3);
     CHECK.same("none", LAB.house.held(1), 0);
   }

@@ -107,6 +107,16 @@ public final class InkEdgesTest {
     CHECK.same("a raster's 1s", row(black + ESC + "*v1T" + ESC + "*r1A" + ESC + "*b1W\17"), 16);
     CHECK.same("SOLID then is not", row(black + ESC + "*v1t0t" + "O" + box(3, 1, "5")), 20);
     CHECK.same("nor SHADE", row(black + ESC + "*c1G" + ESC + "*v1t2T" + box(3, 1, "5")), 20);
+    CHECK.about("WHITE in each row, whatever was at hand before");
+    String whole = at(0, 0) + ESC + "*c3G" + box(16, 16, "0");
+    LAB.print(whole + ESC + "*v3t1T" + box(16, 16, "5"));
+    CHECK.same("WHITE behind HATCH", LAB.black(0), 0);
+    LAB.print(whole + box(1, 1, "3") + box(16, 16, "1"));
+    CHECK.same("of rectangles", LAB.black(0), 0);
+    LAB.print(ESC + "*c3G" + ESC + "*v3t0T" + at(0, 0) + box(16, 16, "5"));
+    CHECK.same("SOLID behind HATCH", LAB.black(0), 256);
+    LAB.print(ESC + "*c3G" + at(0, 0) + box(1, 1, "3") + box(16, 16, "0"));
+    CHECK.same("of rectangles", LAB.black(0), 256);
     CHECK.about("SOLID: 1");
     CHECK.same("OPAQUE or not", row(ESC + "*v1O" + black + box(3, 1, "5")), 20);
   }
@@ -270,6 +280,7 @@ public final class InkEdgesTest {
       CHECK.same("nor a rectangle of it", row(text + at(0, 0) + box(8, 1, "4")), 0);
       CHECK.same("nor at hand", row(text + ESC + "*v4T" + at(0, 0) + box(8, 1, "5")), 8);
     }
+    CHECK.same("0 at first", row(ESC + "*c3W\2\1\200" + at(0, 0) + box(8, 1, "4")), 4);
     CHECK.about("TEMPORARY");
     LAB.print(user(1, 1, 1, "\200"));
     CHECK.same("it went", LAB.house.held(2), 0);
@@ -332,6 +343,13 @@ public final class InkEdgesTest {
     String black = at(0, 0) + box(16, 1, "0");
     String half = at(0, 0) + ESC + "*c2G" + box(16, 1, "3");
     String raster = ESC + "*b2W\360\17";
+    String wide = ESC + "&l3A" + at(0, 0) + box(640, 1, "0");
+    CHECK.same("each 0 of it stays", row(wide + ESC + "*c8G" + user(3, 8, 1, "\1") + box(640, 1, "4")), 640);
+    CHECK.same("each 0 of it is white", row(wide + ESC + "*v1O" + user(3, 8, 1, "\1") + box(640, 1, "4")), 80);
+    CHECK.same("WHITE is white at each", row(wide + box(640, 1, "1")), 0);
+    for (String field : new String[] {"2N", "3N", "2O", "3O", "-1N", "4O", "3P", "3Q", "3S", "1A"}) {
+      CHECK.same("no PATTERN by " + field, row(ESC + "*c2G" + ESC + "*v" + field + at(0, 0) + box(16, 1, "5")), 16);
+    }
     for (int n = -1; n <= 3; n++) {
       CHECK.same("O " + n, row(black + ESC + "*v" + n + "O" + half), n == 1 ? 2 : 16);
       CHECK.same("O 1, " + n, row(black + ESC + "*v1o" + n + "O" + half), n == 0 ? 16 : 2);
@@ -365,6 +383,9 @@ public final class InkEdgesTest {
     CHECK.same("B 400", high("400b"), 400);
     CHECK.same("B 401", high("401b"), 400);
     CHECK.same("none at first", row(at(0, 0) + ESC + "*c0P"), 0);
+    for (String one : new String[] {"0p5a", "5a", "5b"}) {
+      CHECK.same("page of " + one, LAB.print(at(0, 0) + ESC + "*c" + one + "0P"), 0);
+    }
   }
 
   private static void rectangleUnits() {

@@ -143,7 +143,7 @@ public final class MacroEdgesTest {
 
   private static void overByIt() {
     CHECK.about("the SEQUENCE is over by it, also with a LETTER x");
-    x(ESC + "&f3y0xAB" + ESC + "&f1X" + "2X", 1440);
+    x(ESC + "&f3y0xABC" + ESC + "&f1X" + "2X", 1440);
     x(ESC + "&f3y0xAB" + ESC + "&f1X" + ESC + "&f2X", 1440);
     x(ESC + "&f3y0x2xAB" + ESC + "&f1X" + ESC + "&f2X", 3 * 720 + 720);
     x(macro(3, "AB") + ESC + "&f3y2x2X", 4 * 720);

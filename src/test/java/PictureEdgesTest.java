@@ -14,6 +14,7 @@ public final class PictureEdgesTest {
     allOfTheDirectory();
     fortyEntries();
     readAlready();
+    inItsPart();
     thirteenthDirectory();
     numbersRise();
     valuesInTheirRange();
@@ -129,15 +130,57 @@ public final class PictureEdgesTest {
     byte[] file = shot.make();
     file[file.length - 4] = (byte) shot.directory();
     bad("itself", file, 3, shot.directory());
-    byte[] chain = chain(3);
+    byte[] chain = chain(5);
     int first = 9;
-    int third = first + 2 * (chain.length - 9) / 3;
+    int third = first + 2 * (chain.length - 9) / 5;
     byte[] back = chain.clone();
     back[back.length - 4] = (byte) first;
-    bad("the third's next is the first", back, 3, first);
+    bad("the fifth's next is the first", back, 3, first);
     back[back.length - 4] = (byte) third;
     back[back.length - 3] = (byte) (third >> 8);
-    bad("the third's next is the third", back, 3, third);
+    bad("the fifth's next is the third", back, 3, third);
+    LAB.stream("A\f".repeat(9));
+    LAB.picture(Arrays.copyOf(back, back.length));
+    CHECK.same("9 pages and 4 of these", LAB.house.print(1), -11);
+    LAB.stream("A\f".repeat(7));
+    LAB.picture(back);
+    CHECK.same("12 pages, then one read already", LAB.house.print(1), -13);
+    CHECK.about("where the next one is (4; 0 none)");
+    byte[] far = new Shot().make();
+    for (int i = 1; i <= 4; i++) {
+      byte[] next = far.clone();
+      next[next.length - i] = -1;
+      bad("byte " + i + " from the end", next, 3, Math.min(far.length, i == 4 ? 255 : far.length));
+    }
+    Shot high = new Shot();
+    high.low = false;
+    byte[] twice = high.make();
+    twice[twice.length - 1] = (byte) high.directory();
+    bad("its last byte is the lowest in MM", twice, 3, high.directory());
+  }
+
+  private static void inItsPart() {
+    CHECK.about("0 its FAULT, 1 the part, 2 the place in it: the bytes of other parts are none of its");
+    byte[] file = new Shot().make();
+    for (int n = 0; n <= file.length; n++) {
+      LAB.stream("A".repeat(100));
+      LAB.picture(Arrays.copyOf(file, n));
+      LAB.picture(Arrays.copyOfRange(file, n, file.length));
+      int fault = n < 8 ? 2 : n == file.length ? 2 : 3;
+      CHECK.same("print of " + n, LAB.house.print(1), -10 - fault);
+      CHECK.same("part of " + n, LAB.house.fault(1), n == file.length ? 2 : 1);
+      CHECK.same("place of " + n, LAB.house.fault(2), n == file.length ? 0 : n < 8 ? n : Math.min(n, 9));
+    }
+    Shot shot = new Shot();
+    int size = shot.make().length;
+    LAB.stream("A");
+    LAB.picture(shot.tell(279, LONG, 1, size - 7).make());
+    LAB.stream("A".repeat(100));
+    CHECK.same("a STRIP that ends in the next part", LAB.house.print(1), -15);
+    LAB.stream("A");
+    LAB.picture(shot.tell(279, LONG, 1, size - 8).make());
+    LAB.stream("A".repeat(100));
+    CHECK.same("one that ends with its part", LAB.house.print(1), 3);
   }
 
   /** A file of so many pages, whose DIRECTORIES stand from place 9 on, each of 78 bytes; their STRIP is at 8. */
@@ -302,26 +345,31 @@ public final class PictureEdgesTest {
 
   /** A picture of so many rows; each STRIP is at 8 and has 100 bytes, and the lists of that stand behind these. */
   private static Shot rows(int high, int inStrip, int strips) {
+    return rows(high, inStrip, strips, true);
+  }
+
+  private static Shot rows(int high, int inStrip, int strips, boolean low) {
     Shot shot = new Shot().size(8, high, "1".repeat(800));
     StringBuilder lists = new StringBuilder();
     for (int i = 0; i < strips; i++) {
-      lists.append(word(8));
+      lists.append(word(8, low));
     }
     for (int i = 0; i < strips; i++) {
-      lists.append(word(100));
+      lists.append(word(100, low));
     }
     byte[] code = Shot.bits("1".repeat(800));
     byte[] all = Arrays.copyOf(code, code.length + lists.length());
     System.arraycopy(Lab.bytes(lists.toString()), 0, all, code.length, lists.length());
     shot.strip = all;
+    shot.low = low;
     shot.tell(278, LONG, 1, inStrip);
     shot.tell(273, LONG, strips, strips == 1 ? 8 : 108);
     shot.tell(279, LONG, strips, strips == 1 ? 100 : 108 + 4 * strips);
     return shot;
   }
 
-  private static String word(int v) {
-    return "" + (char) (v & 255) + (char) (v >> 8 & 255) + "\0\0";
+  private static String word(int v, boolean low) {
+    return low ? (char) v + "\0\0\0" : "\0\0\0" + (char) v;
   }
 
   private static void rowsInAStrip() {
@@ -330,6 +378,7 @@ public final class PictureEdgesTest {
       {800, 20, 40}, {800, 21, 39}, {800, 800, 1}, {800, 65535, 1}};
     for (int[] d : due) {
       good(d[0] + " rows by " + d[1], rows(d[0], d[1], d[2]).make());
+      good(d[0] + " rows by " + d[1] + " in MM", rows(d[0], d[1], d[2], false).make());
       CHECK.same("height", LAB.house.height(0), d[0]);
       badEntry("one too many", rows(d[0], d[1], d[2] + 1), 273);
       if (d[2] > 1) {

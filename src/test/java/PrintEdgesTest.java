@@ -25,6 +25,8 @@ public final class PrintEdgesTest {
     marksOfTheOverlay();
     dotsCovered();
     dotsOnThePageAlone();
+    dotsOfGlyphs();
+    dotsOfRows();
     thirteenthPage();
     longOut();
     CHECK.end();
@@ -131,6 +133,8 @@ public final class PrintEdgesTest {
     CHECK.same("parts behind a FAULT", lab.house.drop(), 0);
     CHECK.same("print", lab.house.print(1), 0);
     CHECK.same("no FAULT without parts", lab.house.fault(0), 0);
+    CHECK.same("no part of it", lab.house.fault(1), NONE);
+    CHECK.same("no place of it", lab.house.fault(2), NONE);
   }
 
   private static void faultPartAndPlace() {
@@ -381,9 +385,40 @@ public final class PrintEdgesTest {
     CHECK.same("one with a dot on it", lab.print(full + ESC + "*p639x799Y" + ESC + "*c9999a9999b0P"), -11);
     CHECK.same("it is not made", lab.house.held(6), 11);
     CHECK.same("a turned page is covered as far", lab.print(ESC + "&l1O" + covering(9) + "612a640b1p8a40b1P"), 1);
-    CHECK.same("0s of a GLYPH, too", lab.print(full + "A"), -11);
-    CHECK.same("its one row that is on the page, too", lab.print(full + ESC + "*p0YA"), -11);
-    CHECK.same("not one below the page", lab.print(full + ESC + "*p0x800Y" + ESC + "*c0P"), 1);
+    String off = ESC + "*c5a5b";
+    CHECK.same("one below the page", lab.print(full + ESC + "*p0x800Y" + off + "0P"), 1);
+    CHECK.same("one right of and below it", lab.print(full + ESC + "*p640x800Y" + off + "0P"), 1);
+    CHECK.same("none of them makes it less", lab.print(full + ESC + "*p640x0Y" + off + "0p" + ESC + "*p0x800Y" + off + "0p"
+        + ESC + "*p0x0Y" + ESC + "*c1a1b0P"), -11);
+  }
+
+  private static void dotsOfGlyphs() {
+    CHECK.about("each as many as it covers on its page: a GLYPH its width times its height");
+    Lab lab = new Lab();
+    // 4608000 and 391680 are 4999680; what follows leaves so many.
+    String most = covering(9) + "640a612b1p";
+    int[][] places = {{9, 9, 48}, {0, 0, 6}, {637, 9, 24}, {630, 800, 6 * 7}, {0, 3, 24}, {636, 2, 12}};
+    for (int[] p : places) {
+      int left = 320 - p[2];
+      String at = ESC + "*p" + p[0] + "x" + p[1] + "Y";
+      String k = ESC + "&k0H";
+      CHECK.same("just so many at " + p[0] + " " + p[1], lab.print(most + left + "a1b1P" + k + at + "A"), 1);
+      CHECK.same("one too many", lab.print(most + (left + 1) + "a1b1P" + k + at + "A"), -11);
+    }
+  }
+
+  private static void dotsOfRows() {
+    CHECK.about("each as many as it covers on its page: a row SCALE times its width, SCALE high");
+    Lab lab = new Lab();
+    String most = covering(9) + "640a612b1p";
+    String[] rows = {ESC + "*r7S", ESC + "*r8s" + ESC + "*t18R", ESC + "*p635X" + ESC + "*r9s1A", ESC + "*p799Y" + ESC + "*r7S"
+        + ESC + "*t37R"};
+    int[] covers = {7, 8 * 16, 5, 14};
+    for (int i = 0; i < rows.length; i++) {
+      int left = 320 - covers[i];
+      CHECK.same("just so many " + i, lab.print(most + left + "a1b1P" + rows[i] + ESC + "*b0W"), 1);
+      CHECK.same("one too many", lab.print(most + (left + 1) + "a1b1P" + rows[i] + ESC + "*b0W"), -11);
+    }
   }
 
   private static void thirteenthPage() {

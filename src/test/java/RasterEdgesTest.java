@@ -16,6 +16,7 @@ public final class RasterEdgesTest {
     rowsOfTheHeight();
     rowWhenOff();
     bitsBelowTheWidth();
+    everyDot();
     growth();
     eightyBytes();
     packing0();
@@ -162,6 +163,7 @@ public final class RasterEdgesTest {
     y(ESC + "*r4t0A" + ESC + "*b32767Y", 384);
     y(ESC + "*r4t0A" + ESC + "*b3y2Y", 384);
     y(ESC + "*r4t0A" + row("\1") + ESC + "*b5Y", 384);
+    y(ESC + "*r1t0A" + ESC + "*b5Y", 96);
     y(ESC + "*r0A" + ESC + "*b799Y", 76704);
     y(ESC + "*r0A" + ESC + "*b801Y", 76800);
     y(ESC + "*t18R" + ESC + "*r0A" + ESC + "*b32767Y", 76800);
@@ -211,6 +213,34 @@ public final class RasterEdgesTest {
     CHECK.same("what it covers", LAB.black(0), 160);
   }
 
+  private static void everyDot() {
+    CHECK.about("bit i (of 640) at dots from SCALE i on: each alone, wherever the row begins");
+    int[] names = {75, 37, 25, 18};
+    for (int i = 0; i < 640; i += i < 70 ? 1 : 7) {
+      StringBuilder bytes = new StringBuilder("\0".repeat(80));
+      bytes.setCharAt(i / 8, (char) (128 >> i % 8));
+      int scale = 1 + i % 4;
+      int from = i % 5 * 31;
+      LAB.print(ESC + "&l3a1O" + ESC + "*p" + from + "x0Y" + ESC + "*t" + names[scale - 1] + "R" + ESC + "*r1A" + row(bytes.toString()));
+      int black = 0;
+      for (int k = 0; k < scale; k++) {
+        int x = from + scale * i + k;
+        if (x < 800) {
+          black++;
+          CHECK.same("bit " + i, LAB.house.dot(0, 0, 799 - x), 1);
+        }
+      }
+      CHECK.same("alone", LAB.black(0), black * scale);
+    }
+    LAB.print(ESC + "&l3a1O" + ESC + "*p160x0Y" + ESC + "*r1A" + row("\377".repeat(80)));
+    CHECK.same("up to the width", LAB.black(0), 640);
+    CHECK.same("its last dot", LAB.house.dot(0, 0, 0), 1);
+    LAB.print(ESC + "&l3A" + ESC + "*p0x0Y" + ESC + "*c640a1b0P" + ESC + "*b1W\1");
+    CHECK.same("transparent 0s: all stays", LAB.house.black(0, 0), 640);
+    LAB.print(ESC + "&l3A" + ESC + "*p0x0Y" + ESC + "*c640a1b0P" + ESC + "*v1N" + ESC + "*b0W");
+    CHECK.same("OPAQUE 0s: all is white", LAB.house.black(0, 0), 0);
+  }
+
   private static void growth() {
     CHECK.about("Each row, those that go by too, makes Y greater by SCALE dots");
     int[] names = {75, 37, 25, 18};
@@ -257,6 +287,7 @@ public final class RasterEdgesTest {
     due(one + row("\1\201"), 0, "10000001".repeat(2));
     due(one + row("\0\201\0\102"), 0, "1000000101000010");
     due(one + row("\2\201") + row("\0\1"), 1, "00000001");
+    due(one + row("\1\201\2\102\0\377\1\30"), 0, "10000001".repeat(2) + "01000010".repeat(3) + "11111111" + "00011000".repeat(2));
     CHECK.about("a pair without its byte is nothing, too");
     due(one + row("\0\201\3"), 0, "10000001");
     due(one + row("\3"), 0, "0");
@@ -276,6 +307,16 @@ public final class RasterEdgesTest {
     due(two + row("\200\200\200\0\201"), 0, "10000001");
     due(two + row("\0\201\200\377\102"), 0, "10000001" + "01000010".repeat(2));
     due(two + row("\2\201\102") + row("\0\1"), 1, "00000001");
+    due(two + row("\1\201\30\376\102\0\377\377\30"), 0, "1000000100011000" + "01000010".repeat(3) + "11111111"
+        + "00011000".repeat(2));
+    StringBuilder bytes = new StringBuilder();
+    StringBuilder dots = new StringBuilder();
+    for (int i = 0; i < 128; i++) {
+      bytes.append((char) (i * 73 & 255));
+      dots.append(i < 80 ? Integer.toBinaryString(256 | i * 73 & 255).substring(1) : "");
+    }
+    due(two + row("\177" + bytes), 0, dots.toString());
+    due(two + row("\176" + bytes), 0, dots.toString());
   }
 
   private static void packing3() {

@@ -86,6 +86,11 @@ public final class StreamEdgesTest {
       boolean isGroup = group >= 96 && group <= 126;
       x(text, isGroup ? 720 : 3 * 720);
     }
+    String font = ESC + "*c3D" + ESC + ")s9W\1\2\120\10\0\0\0\0\0";
+    due(font + ESC + "(3X", 8, 3);
+    due(font + ESC + "(`3X", 8, 16);
+    due(font + ESC + "(~3X", 8, 16);
+    due(font + ESC + "(a3X", 8, 16);
     x(ESC + "&a2C", 1440);
     x(ESC + "&2C", 0);
     x(ESC + "&aa2C", 1440);
@@ -525,6 +530,9 @@ public final class StreamEdgesTest {
       x(ESC + "&k3g" + n + "GA\n", now >= 2 ? 0 : 720);
       x(ESC + "&k3g" + n + "GA\f", now >= 2 ? 0 : 720);
     }
+    y(ESC + "&k-1GA\r", 900);
+    x(ESC + "&k-1GA\n", 720);
+    x(ESC + "&k4GA\n", 720);
     CHECK.about("(nothing else is)");
     x(ESC + "&k3GA" + ESC + "=" + ESC + "&l0H", 720);
     y(ESC + "&k3GA\t\b\16", 900);
@@ -570,6 +578,9 @@ public final class StreamEdgesTest {
     CHECK.about("TAB: X = LEFT if it is less, else LEFT and the next multiple of 8 HMI (if that is not 0), RIGHT at most (but not less than X)");
     x(ESC + "&a3l2C\t", 2160);
     x(ESC + "&a3l3C\t", 2160 + 5760);
+    x(ESC + "&a5l5C\t", 3600 + 5760);
+    x(ESC + "&a5l12C\t", 3600 + 5760);
+    x(ESC + "&a5l13C\t", 3600 + 11520);
     x(ESC + "&a10C\t", 11520);
     x(ESC + "&a8C\t", 11520);
     x(ESC + "*p59.99X\t", 5760);
