@@ -85,6 +85,7 @@ public final class EnvironmentTest {
       seen(thing[0], ESC + thing[1], thing[2]);
     }
     turned();
+    overlaysOfAllPages();
     insides();
     unlisted();
     CHECK.end();
@@ -131,6 +132,9 @@ public final class EnvironmentTest {
     String start = told(9, change) + ESC + "&f0Y";
     alike(name + ": as before a macro that is called", start + ESC + "&f9y0Y" + probe, start + ESC + "&f9y3x0Y" + probe, true);
     alike(name + ": not of one gone through", start + ESC + "&f9y0Y" + probe, start + ESC + "&f9y2X" + probe, false);
+    String empty = told(9, "") + ESC + "&f0Y";
+    String wished = empty + change + ESC + "&f9y3X";
+    alike(name + ": it stays behind a macro that is called", empty + change + ESC + "&f9Y" + probe, wished + probe, true);
     CHECK.about("the OVERLAY is gone through, with RESET but FORMAT and ORIENTATION");
     String mark = ESC + "*p0x0Y" + ESC + "*c1a1b0P";
     if (!NOT_IN_OVERLAYS.contains(" " + name + " ")) {
@@ -142,6 +146,11 @@ public final class EnvironmentTest {
     String page = mark + ESC + "*p0x9Y\f" + ESC + "*c0a0B";
     alike(name + ": as before behind an OVERLAY", changing + ESC + "&f9y4x0Y" + page + ESC + "&f5X" + probe,
         changing + ESC + "&f8y4x0Y" + page + ESC + "&f5X" + probe, true);
+    String box = ESC + "&f0S" + ESC + "*p0x0Y" + ESC + "*c1a1b0P" + ESC + "&f1S";
+    if (!name.equals("OVERLAY")) {
+      alike(name + ": it stays behind an OVERLAY", told(8, "") + change + box + ESC + "&f7y4X\f" + ESC + "&f5x0Y" + probe,
+          told(8, "") + change + box + ESC + "&f8y4X\f" + ESC + "&f5x0Y" + probe, true);
+    }
   }
 
   /** FORMAT and ORIENTATION, by which the page comes ahead of all. */
@@ -155,6 +164,28 @@ public final class EnvironmentTest {
       int black = LAB.black(0);
       LAB.print(change + "B");
       CHECK.same("the OVERLAY's MARK is on a page like that", black - LAB.black(0), 4);
+    }
+  }
+
+  /** An OVERLAY that makes all of its page black, and one whose text is as long as the page is wide. */
+  private static void overlaysOfAllPages() {
+    CHECK.about("with RESET but FORMAT and ORIENTATION");
+    int[] wide = {200, 320, 480, 640};
+    int[] high = {240, 400, 640, 800};
+    for (int f = 0; f < 4; f++) {
+      for (int o = 0; o < 2; o++) {
+        String page = ESC + "&l" + f + "a" + o + "O" + ESC + "*v1TA";
+        LAB.print(told(9, ESC + "*p0x0Y" + ESC + "*c9999a9999b0P") + ESC + "&f9y4X" + page);
+        CHECK.same("all of FORMAT " + f + " " + o, LAB.black(0), wide[f] * high[f]);
+        int across = o == 0 ? wide[f] : high[f];
+        LAB.print(told(9, "A".repeat(200)) + ESC + "&f9y4X" + page);
+        CHECK.same("text on FORMAT " + f + " " + o, LAB.house.held(6), 1 + 96 * across / 720);
+        LAB.print(told(9, "\n".repeat(100) + ESC + "*c1a1b0P") + ESC + "&f9y4X" + page);
+        int down = 96 * (o == 0 ? high[f] : wide[f]);
+        int lines = (down - 900) / 1200 + 1;
+        int y = (900 + 1200 * (100 % lines)) / 96;
+        CHECK.same("lines on FORMAT " + f + " " + o, o == 0 ? LAB.house.dot(0, 0, y) : LAB.house.dot(0, y, high[f] - 1), 1);
+      }
     }
   }
 
@@ -209,9 +240,12 @@ public final class EnvironmentTest {
         for (char letter = 64; letter <= 94; letter++) {
           boolean isData = letter == 'W' || kind == '&' && group == 'p' && letter == 'X';
           if (!isListed(kind, group, letter)) {
-            String field = ESC + kind + (group == 0 ? "" : "" + group) + "1" + letter + (isData ? "x" : "");
-            String seen = seenOf2(start + field + probe);
-            CHECK.same(field.replace(ESC, "^") + " does nothing", seen.equals(plain) ? 1 : 0, 1);
+            for (String value : new String[] {"0", "1", "2", "3", "25"}) {
+              String field = ESC + kind + (group == 0 ? "" : "" + group) + value + letter;
+              String data = isData ? "x".repeat(Integer.parseInt(value)) : "";
+              String seen = seenOf2(start + field + data + probe);
+              CHECK.same(field.replace(ESC, "^") + " does nothing", seen.equals(plain) ? 1 : 0, 1);
+            }
           }
         }
       }

@@ -17,6 +17,9 @@ public final class FontEdgesTest {
     inPlaceOfOne();
     glyphSizes();
     glyphRows();
+    eachItsOwn();
+    eachDotOfAGlyph();
+    behindAnOverlay();
     glyphSigns();
     advances();
     withoutThatFont();
@@ -276,6 +279,77 @@ public final class FontEdgesTest {
     }
   }
 
+  /** GLYPHS of two fonts, each of another width, height, place and ADVANCE. */
+  private static void eachItsOwn() {
+    CHECK.about("(s: W a GLYPH of the code: each font's, each code's is its own");
+    StringBuilder told = new StringBuilder();
+    int[] fonts = {0, 7, 15};
+    int[] codes = {0, 65, 66, 255};
+    for (int round = 0; round < 2; round++) {
+      for (int f = 0; f < fonts.length; f++) {
+        told.append(round == 0 ? font(fonts[f], 1) : ESC + "*c" + fonts[f] + "D");
+        for (int c = 2 * round; c < 2 * round + 2; c++) {
+          int k = 4 * f + c;
+          String data = "" + (char) k + (char) (k + 1) + (char) (k + 1) + (char) (12 - k) + (char) 0 + (char) (100 + k)
+              + ("" + (k < 8 ? "\377" : "\377\377")).repeat(12 - k);
+          told.append(glyph(codes[c], data));
+        }
+      }
+    }
+    for (int f = 0; f < fonts.length; f++) {
+      for (int c = 0; c < codes.length; c++) {
+        int k = 4 * f + c;
+        LAB.print(told + ESC + "(" + fonts[f] + "X" + ESC + "*p100x200Y" + ESC + "&p1X" + (char) codes[c]);
+        CHECK.same("GLYPH " + k, LAB.black(0), (k + 1) * (12 - k));
+        CHECK.same("its first dot", LAB.house.dot(0, 100 + k, 200 - k - 1), 1);
+        CHECK.same("its last dot", LAB.house.dot(0, 100 + 2 * k, 200 - k - 1 + 11 - k), 1);
+        CHECK.same("its ADVANCE", LAB.house.state(0), 9600 + 100 + k);
+      }
+    }
+  }
+
+  private static void eachDotOfAGlyph() {
+    CHECK.about("SOURCE its bit: each dot alone, and all but one");
+    for (int i = 0; i < 32; i++) {
+      for (int all = 0; all <= 1; all++) {
+        long bits = all == 0 ? 1L << (31 - i) : 0xffffffffL ^ 1L << (31 - i);
+        StringBuilder rows = new StringBuilder();
+        for (int shift = 24; shift >= 0; shift -= 8) {
+          rows.append((char) (bits >> shift & 255));
+        }
+        LAB.print(font(3, 1) + glyph(65, "\0\0\40\1\0\0" + rows) + ESC + "(3X" + ESC + "*p64x9YA");
+        CHECK.same("black", LAB.black(0), all == 0 ? 1 : 31);
+        CHECK.same("dot " + i, LAB.house.dot(0, 64 + i, 9), 1 - all);
+      }
+    }
+  }
+
+  /** The OVERLAY is gone through by the LINE of a WRAP: what is SHOWN is of the fonts that are there behind it. */
+  private static void behindAnOverlay() {
+    CHECK.about("FONT, GLYPH and ADVANCE are as they are behind that: an OVERLAY may change fonts");
+    String three = font(3, 1) + glyph(65, "\0\0\2\2\3\350\300\300");
+    String page = three + ESC + "(3X" + ESC + "&s0C" + ESC + "*p9x9Y" + ESC + "*c1a1b0P" + ESC + "*p320x400YA";
+    // What the OVERLAY does; X, BACK and the black dots of the second page then.
+    Object[][] all = {{"", 1000, 4}, {glyph(65, "\0\0\1\3\7\320\200\200\200"), 2000, 3}, {ESC + "*c65e3F", 720, 0},
+      {ESC + "*c3d2F", 720, -1}, {font(3, 1, 500), 720, 0}, {font(3, 0, 500) + glyph(65, "\0\0\1\3\7\320\200\200\200"), 720, 3},
+      {ESC + "*c0F", 720, -1}, {ESC + "(16X", 1000, 4}};
+    LAB.print("A");
+    int resident = LAB.black(0);
+    for (Object[] one : all) {
+      String over = ESC + "&f1y0X" + ESC + "*c3D" + one[0] + ESC + "&f1X" + ESC + "&f4X";
+      LAB.house.off();
+      CHECK.same("pages", LAB.print(over + page), (int) one[2] == 0 ? 1 : 2);
+      CHECK.same("X by " + one[0], LAB.house.state(0), (int) one[1]);
+      CHECK.same("black", LAB.house.pages() == 1 ? 0 : LAB.black(1), (int) one[2] < 0 ? resident : (int) one[2]);
+      CHECK.same("BACK", LAB.state(over + page + "\b", 0), 0);
+    }
+    String none = font(3, 1) + ESC + "(3X" + ESC + "&s0C" + ESC + "*p9x9Y" + ESC + "*c1a1b0P" + ESC + "*p320x400YA";
+    String over = ESC + "&f1y0X" + ESC + "*c3D" + glyph(65, "\0\0\1\3\7\320\200\200\200") + ESC + "&f1X" + ESC + "&f4X";
+    CHECK.same("a GLYPH that came by it", LAB.print(over + none), 2);
+    CHECK.same("X", LAB.house.state(0), 2000);
+    CHECK.same("black", LAB.black(1), 3);
+  }
+
   private static void glyphSigns() {
     CHECK.about("LEFT, TOP (with signs): its dot (i, j) at (X's dot + its LEFT + i, Y's dot - its TOP + j)");
     int[] values = {0, 1, 127, 128, 200, 255};
@@ -336,8 +410,18 @@ public final class FontEdgesTest {
     CHECK.same("399", LAB.house.held(1), 399);
     LAB.print(ESC + "*c1D" + dot(250));
     CHECK.same("400", LAB.house.held(1), 400);
-    LAB.print(ESC + "*c1D" + dot(251) + font(2) + dot(1));
+    LAB.print(ESC + "*c1D" + glyph(251, "\0\0\10\2\2\120\377\377") + font(2) + glyph(1, "\0\0\10\2\2\120\377\377"));
     CHECK.same("no more", LAB.house.held(1), 400);
+    StringBuilder each = new StringBuilder(ESC + "&k0H");
+    for (int f = 0; f < 2; f++) {
+      each.append(ESC).append("(").append(f).append("X").append(ESC).append("*p0Y");
+      for (int c = 0; c < 200 - f; c++) {
+        each.append(ESC).append("*p").append(c).append("x+1Y").append(ESC).append("&p1X").append((char) c);
+      }
+    }
+    CHECK.same("those that are there", LAB.print(each.toString()), 1);
+    CHECK.same("all SHOWN", LAB.house.held(6), 399);
+    CHECK.same("each is as it was", LAB.black(0), 399 - 199);
     CHECK.same("none of font 2", LAB.print(font(2, 1) + dot(65) + ESC + "(2XA"), 0);
     String tall = glyph(250, "\0\0\1\2\0\0\200\200");
     CHECK.same("in place of one", LAB.print(ESC + "*c1D" + tall + ESC + "(1X\372"), 1);
@@ -374,6 +458,14 @@ public final class FontEdgesTest {
     LAB.house.off();
     LAB.print(four + ESC + "*c66e3F");
     CHECK.same("a GLYPH that is not there", LAB.house.held(1), 1);
+    for (int n = 3; n <= 6; n++) {
+      LAB.house.off();
+      LAB.print(font(2) + dot(65) + ESC + "*c" + n + "F");
+      CHECK.same("a TEMPORARY one stays so, but by 5: " + n, LAB.house.held(0), n == 5 ? 1 : 0);
+      LAB.house.off();
+      LAB.print(font(2) + dot(65) + ESC + "*c5f" + n + "F");
+      CHECK.same("one that is not stays, but by 4: " + n, LAB.house.held(0), n == 4 ? 0 : 1);
+    }
     LAB.house.off();
     LAB.print(four + ESC + "*c7d2f3f4f5F");
     CHECK.same("a font that is not there", LAB.house.held(0), 3);
@@ -528,6 +620,9 @@ public final class FontEdgesTest {
     due(two + ESC + "&k9H" + ESC + ")0G", 2, 720);
     due(two + ESC + "&k9H" + ESC + ")0G\16", 2, 333);
     due(two + ESC + "(3X" + ESC + "&k9H" + ESC + "*c3d2F", 2, 540);
+    due("\16AB\17CD", 0, 4 * 720);
+    CHECK.same("14 and 15 begin no SEQUENCE", LAB.house.held(6), 4);
+    due("\16&a9C\17&a9C", 0, 8 * 720);
     due(two + ESC + "(3X" + ESC + "&k9H" + ESC + "*c3d2F\17", 2, 720);
   }
 

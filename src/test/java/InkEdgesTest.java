@@ -304,6 +304,14 @@ public final class InkEdgesTest {
       CHECK.same("of one that is not there " + n, LAB.house.held(2), 3);
     }
     LAB.house.off();
+    LAB.house.off();
+    LAB.print(ESC + "*c1G" + ESC + "*c5W\1\3\200\200\200");
+    CHECK.same("by 5 bytes of DATA it is TEMPORARY", LAB.house.held(2), 0);
+    LAB.print(user(1, 2, 1, "\200") + ESC + "*c5Q" + user(2, 2, 1, "\200") + ESC + "*c3f7f6F" + ESC + "*c5Q");
+    CHECK.same("by F no number is told", LAB.house.held(2), 2);
+    LAB.house.off();
+    LAB.print(at(0, 0) + ESC + "*c3a2b7q6q8Q" + ESC + "*c0P");
+    CHECK.same("by Q no width is told", LAB.black(0), 6);
     CHECK.same("it went at once", row(user(1, 2, 1, "\200") + ESC + "*c1Q" + at(0, 0) + box(8, 1, "4")), 0);
     CHECK.same("by its number", row(user(1, 2, 1, "\200") + ESC + "*c2Q" + at(0, 0) + box(8, 1, "4")), 0);
     CHECK.same("all", row(user(1, 2, 1, "\200") + ESC + "*c0Q" + at(0, 0) + box(8, 1, "4")), 0);
@@ -345,6 +353,9 @@ public final class InkEdgesTest {
     String raster = ESC + "*b2W\360\17";
     String wide = ESC + "&l3A" + at(0, 0) + box(640, 1, "0");
     CHECK.same("each 0 of it stays", row(wide + ESC + "*c8G" + user(3, 8, 1, "\1") + box(640, 1, "4")), 640);
+    CHECK.same("each 0 of it stays, wherever it is", row(wide + ESC + "*c8G" + user(3, 8, 1, "\200") + box(640, 1, "4")), 640);
+    CHECK.same("of none at all", row(wide + ESC + "*c8G" + user(3, 1, 1, "\0") + box(640, 1, "4")), 640);
+    CHECK.same("in a raster", row(wide + user(3, 1, 1, "\0") + ESC + "*v4T" + ESC + "*b80W" + "\377".repeat(80)), 640);
     CHECK.same("each 0 of it is white", row(wide + ESC + "*v1O" + user(3, 8, 1, "\1") + box(640, 1, "4")), 80);
     CHECK.same("WHITE is white at each", row(wide + box(640, 1, "1")), 0);
     for (String field : new String[] {"2N", "3N", "2O", "3O", "-1N", "4O", "3P", "3Q", "3S", "1A"}) {
@@ -397,6 +408,14 @@ public final class InkEdgesTest {
       CHECK.same("V " + values[i], high(values[i] + "v"), i == 10 ? 321 : due[i]);
     }
     CHECK.same("V 3840.1 is 401", high("3840.1v"), 400);
+    LAB.print(at(0, 0) + ESC + "*c3b96h0P");
+    CHECK.same("H tells no height", LAB.black(0), 30);
+    LAB.print(at(0, 0) + ESC + "*c3a96v0P");
+    CHECK.same("V tells no width", LAB.black(0), 30);
+    LAB.print(at(0, 0) + ESC + "*c3a0b0v5v5a0b1v0h3v4h0V");
+    CHECK.same("nor is it a rectangle", LAB.house.held(6), 0);
+    LAB.print(at(0, 0) + ESC + "*c3a4b0P" + at(0, 10) + ESC + "*c5b0P" + at(0, 20) + ESC + "*c6a0P");
+    CHECK.same("A and B each alone", LAB.black(0), 3 * 4 + 3 * 5 + 6 * 5);
     CHECK.same("H -.1", wide("7a-.1h"), 7);
     CHECK.same("V -.1", high("7b-.1v"), 7);
     CHECK.same("H -.09 is 0", wide("7a-.09h"), 0);

@@ -93,7 +93,7 @@ public final class MacroEdgesTest {
   private static void upToTheFirstEnd() {
     CHECK.about("what follows, up to the first 27 38 102 49 88, is the macro of the ID");
     String[] others = {ESC + "&f1x", ESC + "&f01X", ESC + "&f1Y", ESC + "&f11X", ESC + "&f1", ESC + "&f2X", ESC + "&g1X",
-      ESC + "(f1X", ESC + "&f+1X", ESC};
+      ESC + "(f1X", ESC + "&f+1X", ESC, "&f1X", "x&f1X", ESC + "x&f1X", "f1X", ESC + "&" + ESC + "f1X"};
     for (String other : others) {
       CHECK.same("bytes with " + other.replace(ESC, "^"), held(macro(3, "A" + other) + use(3, 10), 4), 1 + other.length());
     }
@@ -274,6 +274,11 @@ public final class MacroEdgesTest {
     CHECK.same("Y is as by HOME by LINE in it", LAB.dots(0, 0, 9, 4).equals("1110") ? 1 : 0, 1);
     LAB.print(macro(3, ESC + "*p400Y\f" + ESC + "*c3a3b0P") + use(3, 4) + ESC + "*v1TA");
     CHECK.same("by FORM in it, too", LAB.dots(0, 0, 11, 4).equals("1110") ? 1 : 0, 1);
+    for (String field : new String[] {"0A", "1A", "2A", "4A", "0O", "1O", "2O"}) {
+      LAB.print(macro(3, ESC + "*p20x30Y" + ESC + "&l" + field + ESC + "*c3a3b0P") + use(3, 4) + ESC + "*v1TA");
+      CHECK.same("by &l" + field + " X, Y stay", LAB.house.dot(0, 20, 30) + LAB.house.dot(0, 22, 32), 2);
+      CHECK.same("alone", LAB.black(0), 9);
+    }
     pages(macro(3, ESC + "&l4Xo") + use(3, 4) + "A", 1);
     pages(macro(3, use(4, 3)) + macro(4, ESC + "&l2A" + ESC + "&l1Oo") + use(3, 4) + "A", 1);
     CHECK.same("marks of a macro called in it", LAB.house.held(6), 2);

@@ -13,6 +13,7 @@ public final class PictureEdgesTest {
     noDirectory();
     allOfTheDirectory();
     fortyEntries();
+    itsEntriesAlone();
     readAlready();
     inItsPart();
     thirteenthDirectory();
@@ -122,6 +123,36 @@ public final class PictureEdgesTest {
     byte[] most = new Shot().make();
     most[shot.directory() + 1] = -1;
     bad("more than there are", most, 3, shot.directory());
+  }
+
+  /** What stands ahead of the ENTRIES and behind them looks like one more, which would be wrong. */
+  private static void itsEntriesAlone() {
+    CHECK.about("how many ENTRIES, these");
+    for (int k = 0; k < 2; k++) {
+      Shot shot = new Shot();
+      shot.low = k == 0;
+      byte[] wrong = new byte[10];
+      wrong[shot.low ? 1 : 0] = 1;
+      byte[] strip = Arrays.copyOf(new byte[] {-1, -1}, 256 - 8 - 80);
+      System.arraycopy(wrong, 0, strip, strip.length - 10, 10);
+      shot.strip = strip;
+      byte[] file = shot.make();
+      good("one ahead of them", file);
+    }
+    Shot first = new Shot();
+    byte[] one = first.make();
+    Shot second = new Shot();
+    second.strip = Arrays.copyOf(second.strip, 256 - 8);
+    byte[] two = second.make();
+    // The first one's DIRECTORY stands behind the second's, whose place is 256, the number of a width.
+    int place = two.length;
+    byte[] both = Arrays.copyOf(two, place + one.length - first.directory());
+    System.arraycopy(one, first.directory(), both, place, one.length - first.directory());
+    both[4] = (byte) place;
+    both[5] = (byte) (place >> 8);
+    both[both.length - 4] = 0;
+    both[both.length - 3] = 1;
+    CHECK.same("one behind them", print(both), 2);
   }
 
   private static void readAlready() {

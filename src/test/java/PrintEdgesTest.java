@@ -317,6 +317,14 @@ public final class PrintEdgesTest {
     CHECK.same("DATA up to 60000", streams(lab, most(), "\0".repeat(LEFT - 14) + data), 1);
     CHECK.same("DATA beyond", streams(lab, most(), "\0".repeat(LEFT - 13) + data), -11);
     CHECK.same("none of them is SHOWN", lab.house.held(6), 0);
+    String drop = ESC + "&f8X";
+    lab.print(macro(0, "AB") + ESC + "&f10X");
+    CHECK.same("it is done", streams(lab, most(), "\0".repeat(LEFT - drop.length()) + drop), 0);
+    CHECK.same("macros", lab.house.held(3), 0);
+    lab.print(macro(0, "AB") + ESC + "&f10X");
+    CHECK.same("the 60001st is not", streams(lab, most(), "\0".repeat(LEFT - drop.length() + 1) + drop), -11);
+    CHECK.same("macros", lab.house.held(3), 1);
+    lab.house.off();
     CHECK.same("DATA that are there", streams(lab, most(), "\0".repeat(LEFT - 8) + ESC + "&p99XAA"), 1);
   }
 
@@ -405,6 +413,17 @@ public final class PrintEdgesTest {
       CHECK.same("just so many at " + p[0] + " " + p[1], lab.print(most + left + "a1b1P" + k + at + "A"), 1);
       CHECK.same("one too many", lab.print(most + (left + 1) + "a1b1P" + k + at + "A"), -11);
     }
+    CHECK.about("each as many as it covers on its page: none makes it less");
+    // LEFT and TOP of GLYPHS that lie wholly beside the page, and where they are SHOWN.
+    int[][] far = {{127, 0, 600, 9}, {128, 0, 5, 9}, {0, 127, 9, 5}, {0, 128, 9, 790}, {127, 128, 600, 790}, {128, 127, 5, 5}};
+    for (int[] f : far) {
+      String glyph = font(3) + ESC + "*c65E" + ESC + "(s16W" + (char) f[0] + (char) f[1] + "\12\5\0\0" + "\377".repeat(10);
+      String shown = glyph + ESC + "(3X" + ESC + "*p" + f[2] + "x" + f[3] + "YA" + ESC + "*p0x0Y" + ESC + "*c1a1b0P";
+      CHECK.same("off the page by " + (byte) f[0] + " " + (byte) f[1], lab.print(most + "319a1b1P" + shown), 1);
+      CHECK.same("marks", lab.house.held(6), 13);
+      CHECK.same("one more is too many", lab.print(most + "320a1b1P" + shown), -11);
+      CHECK.same("marks", lab.house.held(6), 12);
+    }
   }
 
   private static void dotsOfRows() {
@@ -425,6 +444,9 @@ public final class PrintEdgesTest {
     CHECK.about("a 13th page");
     Lab lab = new Lab();
     CHECK.same("11 and two COPIES", lab.print("A\f".repeat(11) + ESC + "&l2XA"), -11);
+    String wrap = "A\f".repeat(12) + ESC + "&s0C" + "A" + ESC + "*p320x400Y";
+    CHECK.same("a 13th by the LINE of a WRAP", lab.print(wrap + "BCD"), -11);
+    CHECK.same("what would be SHOWN behind it is no MARK", lab.house.held(6), 13);
     CHECK.same("10 and two COPIES", lab.print("A\f".repeat(10) + ESC + "&l2XA"), 12);
     CHECK.same("12 and a white page without MARKS", lab.print("A\f".repeat(12) + " \f\f"), 12);
     byte[] shot = new Shot().make();

@@ -134,6 +134,10 @@ public final class RasterEdgesTest {
       black(ESC + "*r8s2t" + n + "T" + row("\377").repeat(4), 32);
     }
     black(ESC + "*r8s2t0A" + ESC + "*r1s1T" + row("\377").repeat(4), 16);
+    black(ESC + "*r2S" + row("\377").repeat(4), 8);
+    CHECK.same("the width tells no height", LAB.house.held(6), 4);
+    black(ESC + "*r2T" + row("\377\377").repeat(4), 32);
+    black(ESC + "*r2t4S" + row("\377").repeat(4), 8);
     black(ESC + "*r8s2t0A" + ESC + "*r0s0T" + row("\377").repeat(4), 16);
   }
 
@@ -143,6 +147,10 @@ public final class RasterEdgesTest {
     due(ESC + "*b1M" + row("\1\200"), 0, "1000000010000000");
     due(ESC + "*b2M" + row("\1\200\1"), 0, "1000000000000001");
     due(ESC + "*b3M" + row("\1\200"), 0, "0000000010000000");
+    for (int before = 1; before <= 3; before++) {
+      due(ESC + "*b" + before + "m0M" + row("\1\200"), 0, "0000000110000000");
+      due(ESC + "*b" + before + "mM" + row("\1\200"), 0, "0000000110000000");
+    }
     for (String n : new String[] {"-1", "4", "5", "32767"}) {
       due(ESC + "*b1m" + n + "M" + row("\1\200"), 0, "1000000010000000");
     }

@@ -245,6 +245,15 @@ public final class StreamEdgesTest {
   }
 
   private static void relative() {
+    CHECK.about("&a: C X, R Y, H X, V Y; *p: X, Y: the other stays");
+    for (String field : new String[] {"&a3", "&a+3", "&a-1", "*p3", "*p+3", "*p-1"}) {
+      for (String letter : field.startsWith("*") ? new String[] {"X"} : new String[] {"C", "H", "L", "M"}) {
+        y(ESC + "*p50x60Y" + ESC + field + letter, 5760);
+      }
+      for (String letter : field.startsWith("*") ? new String[] {"Y", "R"} : new String[] {"R", "V", "M"}) {
+        x(ESC + "*p50x60Y" + ESC + field + letter, 4800);
+      }
+    }
     CHECK.about("RELATIVE: with + or -: that is added to X, Y");
     x("A" + ESC + "&a+1C", 1440);
     x("AA" + ESC + "&a-1C", 720);
@@ -337,11 +346,22 @@ public final class StreamEdgesTest {
     y(ESC + "&l.0067C" + ESC + "=", 900);
     y(ESC + "&l1l2F" + ESC + "&a1.5R" + ESC + "=", 2400);
     y(ESC + "&l1l2F" + ESC + "&a1.51R" + ESC + "=", 900);
+    y(ESC + "&a3l9M" + ESC + "9", 900);
+    x("A" + ESC + "9", 720);
     x("A" + ESC + "&k3G" + ESC + "=", 720);
     pages("A" + ESC + "*p400Y" + ESC + "=A", 2);
     CHECK.about("E RESET: (Not in macros.)");
     pages("A" + ESC + "EA", 2);
     pages(ESC + "&f0X" + ESC + "E" + ESC + "&f1XA" + ESC + "&f2XA", 1);
+    String told = ESC + "*c3D" + ESC + ")s9W\1\2\120\10\0\0\0\0\0" + ESC + "(3X" + ESC + "&l2e9F" + ESC + "&a3l20M" + ESC
+        + "&a4c5R" + ESC + "&f0s0S" + ESC + "&l7c2A" + ESC + "&l2e9F" + ESC + "&a3l20m5c6R";
+    String empty = ESC + "&f9y0X" + ESC + "&f1X";
+    String e = ESC + "&f9y0X" + ESC + "E" + ESC + "&f1X";
+    for (int what = 0; what < 12; what++) {
+      for (int how = 2; how <= 3; how++) {
+        due(e + told + ESC + "&f" + how + "X", what, LAB.state(empty + told + ESC + "&f" + how + "X", what));
+      }
+    }
   }
 
   private static void shownUntil() {
@@ -350,6 +370,8 @@ public final class StreamEdgesTest {
     x(ESC + "Y", 0);
     x(ESC + "YA" + ESC, 1440);
     x(ESC + "YZ" + ESC + "Z", 720);
+    x(ESC + "YAZB" + ESC + "Z", 3 * 720);
+    x(ESC + "YAZ\r" + ESC + "Z", 720);
     x(ESC + "Y" + ESC + "Y" + ESC + "Z", 1440);
     x(ESC + "Y" + ESC + ESC + "Z", 720);
     x(ESC + "Y\0\1\7\b\t\n\f\16\17\33" + ESC + "Z", 10 * 720);
@@ -437,7 +459,11 @@ public final class StreamEdgesTest {
     for (int n = -3; n <= 100; n++) {
       boolean isOne = n > 0 && 48 % n == 0;
       due(ESC + "&l9c" + n + "D", 3, isOne ? 7200 / n : 1350);
+      CHECK.same("TOP by D " + n, LAB.house.state(6), 0);
+      CHECK.same("BOTTOM by D " + n, LAB.house.state(7), HIGH);
+      CHECK.same("Y by D " + n, LAB.house.state(1), 900);
     }
+    y(ESC + "&l9C", 900);
   }
 
   private static void topMargin() {
@@ -477,6 +503,11 @@ public final class StreamEdgesTest {
       y(ESC + "&l3f" + n + "L" + ESC + "&a4R\n", n == 1 ? 900 : 6000);
     }
     y(ESC + "&l1l3f-1L" + ESC + "&a4R\n", 900);
+    CHECK.about("by other FIELDS there is no SKIP, nor is it over");
+    for (String field : new String[] {"1F", "1E", "1D", "8C", "1X", "1H"}) {
+      y(ESC + "&l" + field + ESC + "&l8c0e3F" + ESC + "&a4R\n", 6000);
+      y(ESC + "&l1l" + field.replace('1', '2') + ESC + "&l8c0e3F" + ESC + "&a4R\n", 900);
+    }
   }
 
   private static void leftMargin() {
