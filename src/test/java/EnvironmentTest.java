@@ -87,6 +87,7 @@ public final class EnvironmentTest {
     turned();
     overlaysOfAllPages();
     insides();
+    macrosIdIsAsBefore();
     unlisted();
     CHECK.end();
   }
@@ -211,6 +212,26 @@ public final class EnvironmentTest {
     CHECK.same("the raster's place", LAB.house.dot(0, 5, 1), 1);
     CHECK.same("and how many rows were", LAB.house.held(6), 1 + 2 + 2);
     CHECK.same("Y", LAB.house.state(1), 288);
+    for (int were = 0; were <= 4; were++) {
+      LAB.print(told(9, "") + ESC + "*r4t0A" + row.repeat(were) + call + row.repeat(5));
+      CHECK.same("of a height of 4 so many are left behind " + were, LAB.house.held(6), 4);
+      LAB.print(told(9, "") + ESC + "*r4t0A" + row.repeat(were) + ESC + "&f9y4X" + ESC + "*c1a1b0P\f" + row.repeat(5));
+      CHECK.same("behind an OVERLAY, too", LAB.house.held(6), 5);
+    }
+  }
+
+  /** The ID is told by a macro that is called, and by an OVERLAY: behind these it is as before. */
+  private static void macrosIdIsAsBefore() {
+    CHECK.about("3 likewise, and the ENVIRONMENT is as before then");
+    LAB.house.off();
+    String three = told(2, "AB") + told(9, "A" + ESC + "&f2Y") + told(5, "");
+    CHECK.same("9 is called, then gone through", LAB.state(three + ESC + "&f9y3X" + ESC + "&f2X", 0), 720);
+    CHECK.same("the ID is the macro's then", LAB.state(three + ESC + "&f9y3X" + ESC + "&f2x2X", 0), 3 * 720);
+    CHECK.about("the OVERLAY is gone through, and the ENVIRONMENT is as before");
+    CHECK.same("9 is the OVERLAY", LAB.state(three + ESC + "&f9y4XA\f" + ESC + "*p0X" + ESC + "&f2X", 0), 720);
+    CHECK.same("5 is told", LAB.state(three + ESC + "&f9y4x5YA\f" + ESC + "*p0X" + ESC + "&f2X", 0), 0);
+    CHECK.same("it is the OVERLAY as before", LAB.print(told(9, ESC + "&f5X" + "o") + ESC + "&f9y4XA\fA\fA"), 3);
+    CHECK.same("each time", LAB.house.held(6), 6);
   }
 
   private static final String[] LISTED = {"&lAOHXCDEFL", "&aCRHVLM", "&kHG", "&sC", "&fYXS", "&pX", "*pXYR", "*cDEFGWQABHVP",

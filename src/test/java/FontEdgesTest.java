@@ -568,6 +568,7 @@ public final class FontEdgesTest {
     }
     for (String wish : new String[] {"(7A", "(s1P", "(s14.4H", "(s20V", "(s0S", "(s0B", "(s0T"}) {
       inUse(two + ESC + wish, 3);
+      inUse(font(0, 0, 9, 99, 9, 9, 9, 9) + font(1, 0, 9, 99, 9, 9, 9, 9) + two + ESC + wish, 3);
       inUse(two + ESC + wish.replace('(', ')'), 4);
     }
   }

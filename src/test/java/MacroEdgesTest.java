@@ -186,6 +186,12 @@ public final class MacroEdgesTest {
     marks(over + "A\f" + use(3, 4) + "A\fA\f" + use(9, 5) + "A", 1 + 3 + 3 + 1);
     marks(over + use(3, 4) + use(3, 5) + "A", 1);
     marks(over + use(3, 5) + use(3, 4) + "A", 3);
+    for (int id = 0; id < 16; id++) {
+      marks(macro(id, "oo") + use(id, 4) + "A", 3);
+      marks(macro(id, "oo") + use(id, 4) + use(id, 5) + "A", 1);
+      marks(macro(id, "oo") + "A", 1);
+      marks(macro(id, "oo") + use(id, 10) + use(id, 4) + ESC + "EA" + use(id, 8), 1);
+    }
     marks(over + use(3, 4) + ESC + "&f9YA", 3);
     marks(over + macro(4, "ooo") + use(3, 4) + use(4, 4) + "A", 4);
     marks(over + use(3, 4) + macro(3, "o") + "A", 2);
