@@ -496,6 +496,7 @@ public final class FontEdgesTest {
     due(two + ESC + "(7X" + ESC + "(16X", 2, 720);
     for (String n : new String[] {"-1", "4", "15", "17", "32767"}) {
       inUse(two + ESC + "(7X" + ESC + "(" + n + "X", 7);
+      due(two + ESC + "(7X" + ESC + "&k9H" + ESC + "(" + n + "X", 2, 540);
     }
     inUse(two + ESC + "(7X" + ESC + "*c7d2F" + font(7, 0, 9, 9), 7);
   }
